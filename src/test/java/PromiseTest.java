@@ -386,6 +386,10 @@ public final class PromiseTest {
     is(x.sum(7, 3, LOW), 5758);
     is(x.sum(7, 5, LOW), 0);
     is(x.free(7, 1, false), false);
+    yes(x.event(7, 2000, ENDED));
+    yes(x.amount(0, 0, 3000));
+    is(x.sum(7, 4, LOW), 2000);
+    is(x.sum(7, 5, LOW), 0);
     // It is a GROUP of its own; the others stay together.
     open(0, 0, 1);
     open(1, 0, 1);
@@ -626,6 +630,24 @@ public final class PromiseTest {
     yes(x.day(1, 10, false));
     is(x.copy(1, 8, 0, 1, 3), 3);
     no(x.event(1, 0, 0), 5);
+    // The DAYS that come have 50 and 60, those that go 50 and 50: there is room for the first alone.
+    full();
+    is(x.tear(0, 2, 800), 10);
+    for (int i = 0; i < 10; i++) yes(x.event(0, 1440, BERTHED));
+    due(x.copy(1, 0, 0, 0, 2), 1);
+    due(x.status(0), 5);
+    is(x.copy(1, 0, 0, 2, 2), 2);
+    due(x.status(7), 4990);
+    is(x.copy(0, 89, 0, 1, 1), 1);
+    due(x.status(7), 5000);
+    // DAY 1 comes to 2 with the 60 that it had at first.
+    due(x.copy(0, 1, 0, 0, 2), 1);
+    due(x.status(0), 5);
+    due(x.status(7), 4990);
+    is(x.copy(0, 1, 0, 89, 1), 1);
+    due(x.status(7), 5000);
+    due(x.copy(0, 2, 0, 1, 1), 0);
+    due(x.status(0), 5);
   }
 
   private static void free() {
@@ -792,6 +814,15 @@ public final class PromiseTest {
     is(x.sum(0, 6, LOW), 2880);
     is(x.sum(2, 2, LOW), -1);
     is(x.sum(2, 3, LOW), 2880);
+    // What counts is where a minute stands, not which it is: PORT 1's first one is 40, at 45.
+    yes(x.office(1, 40, 1440, 0));
+    yes(x.offset(1, 5));
+    yes(x.amount(0, 0, 50));
+    is(x.sum(0, 2, LOW), 48);
+    is(x.why(1, 42, LOW), 1);
+    is(x.why(1, 43, LOW), -2);
+    yes(x.office(1, 0, 1440, 0));
+    yes(x.offset(1, 1000000));
     // A gap between the ports: ONCE lies behind it.
     yes(x.amount(0, 0, 1441));
     yes(x.term(1, 1, ALLOW, 0, 0, 0));
