@@ -1,414 +1,332 @@
-/** Each promise by its number: ordinary inputs, the edges that the document names, wrong inputs. */
-public final class PromiseTest {
-  private static final int NONE = LaytimeDesk.NONE;
-  private static final int ALLOW = 0, EXCEPT = 1, UNLESS = 2, ALWAYS = 3, HALF = 4;
-  private static final int ARRIVED = 0, NOTICE = 1, BERTHED = 2, BEGAN = 3, RAIN = 4, STOPPED = 5, SHIFTED = 6, ENDED = 7;
-  private static final boolean LOW = false, HIGH = true;
-  private static final int[] WILD = {-1, -2, Integer.MIN_VALUE, Integer.MAX_VALUE};
+import java.util.Arrays;
 
-  private static int wrong = 0;
-  private static int promise = 0;
-  private static int row = 0;
-  private static LaytimeDesk x;
-
-  private static void begin(int number) {
-    promise = number;
-    row = 0;
-    fresh();
-  }
-  private static void fresh() { x = new LaytimeDesk(); }
-  private static void due(long got, long want) {
-    row++;
-    if (got == want) return;
-    wrong++;
-    StackTraceElement at = null;
-    for (StackTraceElement e : new Throwable().getStackTrace()) {
-      if (!e.getMethodName().equals("due") && !e.getMethodName().equals("no") && !e.getMethodName().equals("yes")) { at = e; break; }
-    }
-    System.out.println("promise " + promise + ", row " + row + " (" + at + "): " + got + ", due is " + want);
-  }
-  private static void yes(boolean got) { due(got ? 1 : 0, 1); due(x.status(0), 0); }
-  private static void no(boolean got, int why) { due(got ? 1 : 0, 0); due(x.status(0), why); }
-  private static void no(long got, int why) { due(got, NONE); due(x.status(0), why); }
-  /** An answer of a call that is not refused. */
-  private static void is(long got, long want) { due(got, want); due(x.status(0), 0); }
-  private static void is(boolean got, boolean want) { due(got ? 1 : 0, want ? 1 : 0); due(x.status(0), 0); }
-
-  /** A new desk: CONTRACT 0, PORT 0 of so many DAYS that arrived with notice at minute 0. */
-  private static void ship(int days) {
-    fresh();
-    x.contract();
-    open(0, 0, days);
-  }
-  private static void open(int p, int c, int days) {
-    yes(x.port(p, c, days));
-    yes(x.event(p, 0, ARRIVED));
-    yes(x.event(p, 0, NOTICE));
-  }
-  private static void term(int place, int kind, int sort, int a, int b) { yes(x.term(0, place, kind, sort, a, b)); }
-  private static void allow(int c, int place, int minutes) {
-    yes(x.term(c, place, ALLOW, 0, 0, 0));
-    yes(x.amount(c, place, minutes));
-  }
+/** Promises 1 to 37: each of their sentences, at the boundaries that it names; what REFUSALS say of all is in RefusalsTest. */
+public final class PromiseTest extends Checks {
 
   private static void newObject() {
-    begin(1);
+    says("1: No CONTRACT, no open PORT, no image, no claim.");
     due(LaytimeDesk.NONE, -1);
-    due(x.status(0), 0);
-    for (int i = 1; i <= 8; i++) due(x.status(i), 0);
-    for (int p = 0; p < 8; p++) no(x.told(p, 4), 2);
-    no(x.kind(0, 0), 2);
+    for (int what = 0; what <= 8; what++) due(x.status(what), 0);
+    for (int c = 0; c < 40; c++) no(x.kind(c, 0), 2);
+    for (int p = 0; p < 8; p++) no(x.told(p, DAYS), 2);
+    for (int p = 0; p < 8; p++) no(x.together(1 << p), 2);
     no(x.back(), 2);
+    no(x.tell(1, 0), 2);
     due(x.check(0, LOW), -4);
     due(x.status(0), 2);
-    no(x.tell(1, 0), 2);
   }
 
+  // ---- 2 to 10: CONTRACTS
+
   private static void contract() {
-    begin(2);
-    for (int c = 0; c < 40; c++) {
+    says("2: A CONTRACT more, empty: its number");
+    for (int c = 0; c < 3; c++) {
       is(x.contract(), c);
-      is(x.kind(c, 0), 6);
-      is(x.kind(c, 59), 6);
+      due(x.status(6), c + 1);
+      for (int place = 0; place < 60; place++) due(x.kind(c, place), 6);
     }
-    due(x.status(6), 40);
+    says("2: refused (5) if there are 40.");
+    for (int c = 0; c < 39; c++) is(x.contract(), c);
+    yes(x.image());
+    is(x.contract(), 39);
     no(x.contract(), 5);
     no(x.contract(), 5);
     due(x.status(6), 40);
     due(x.status(5), 2);
+    yes(x.back());
+    due(x.status(6), 39);
+    is(x.contract(), 39);
+    no(x.contract(), 5);
   }
 
   private static void term() {
-    begin(3);
-    no(x.term(0, 0, 0, 0, 0, 0), 2);
-    no(x.term(0, 0, 5, 0, 0, 0), 1);
+    says("3: The PLACE holds a TERM: YIELDS 0, AMOUNT 0.");
     x.contract();
     for (int kind = 0; kind < 5; kind++) {
-      yes(x.term(0, kind, kind, 0, -7, 999999));
-      is(x.kind(0, kind), kind);
-      is(x.span(0, kind, 0), 0);
-      is(x.span(0, kind, 1), -7);
-      is(x.span(0, kind, 2), 999999);
+      for (int was = 0; was < 3; was++) {
+        if (was == 1) yes(x.heading(0, 0, 31));
+        if (was == 2) term(0, HALF, HOURS, 1, 2);
+        if (was == 2) x.yields(0, 0, 31);
+        if (was == 2) yes(x.amount(0, 0, 9));
+        term(0, kind, STATED, 3, 5);
+        is(x.kind(0, 0), kind);
+        int[] want = {STATED, 3, 5, 0, 0};
+        for (int what = 0; what < 5; what++) is(x.span(0, 0, what), want[what]);
+        yes(x.strike(0, 0));
+      }
     }
-    yes(x.amount(0, 4, 5));
-    is(x.yields(0, 4, 9), 0);
-    yes(x.term(0, 4, 0, 2, -7, -8));
-    is(x.span(0, 4, 3), 0);
-    is(x.span(0, 4, 4), 0);
-    yes(x.heading(0, 5, 1));
-    yes(x.term(0, 5, 1, 3, 4, -1));
-    is(x.kind(0, 5), 1);
-    yes(x.term(0, 59, 1, 1, 0, 1440));
-    yes(x.term(0, 59, 1, 1, 1440, 0));
-    yes(x.term(0, 59, 1, 4, 0, 129600));
-    yes(x.term(0, 59, 1, 4, 129600, 0));
-    yes(x.term(0, 59, 1, 3, 0, Integer.MIN_VALUE));
-    no(x.term(0, 59, 1, 1, 1441, 0), 1);
-    no(x.term(0, 59, 1, 1, 0, 1441), 1);
-    no(x.term(0, 59, 1, 1, -1, 0), 1);
-    no(x.term(0, 59, 1, 1, 0, -1), 1);
-    no(x.term(0, 59, 1, 3, 5, 0), 1);
-    no(x.term(0, 59, 1, 3, -1, 0), 1);
-    no(x.term(0, 59, 1, 4, 129601, 0), 1);
-    no(x.term(0, 59, 1, 4, 0, 129601), 1);
-    no(x.term(0, 59, 1, 4, -1, 0), 1);
-    no(x.term(0, 59, 1, 4, 0, -1), 1);
-    no(x.term(0, 59, 5, 0, 0, 0), 1);
-    no(x.term(0, 59, 0, 5, 0, 0), 1);
-    no(x.term(0, 60, 0, 0, 0, 0), 1);
-    no(x.term(40, 0, 0, 0, 0, 0), 1);
-    no(x.term(39, 0, 0, 0, 0, 0), 2);
-    no(x.term(39, 60, 0, 0, 0, 0), 1);
-    for (int w : WILD) {
-      no(x.term(w, 0, 0, 0, 0, 0), 1);
-      no(x.term(0, w, 0, 0, 0, 0), 1);
-      no(x.term(0, 0, w, 0, 0, 0), 1);
-      no(x.term(0, 0, 0, w, 0, 0), 1);
+  }
+
+  private static void termBounds() {
+    says("3: Refused (1), too, for a, b that are not 0 .. 1440 (SORT 1)");
+    x.contract();
+    bounds(HOURS, 1440);
+    says("3: a that is not 0 .. 4 (3)");
+    x.contract();
+    for (int a = 0; a <= 4; a++) term(0, EXCEPT, STATED, a, 0);
+    for (int a : new int[] {-1, 5, LEAST_INT, MOST_INT}) no(x.term(0, 0, EXCEPT, STATED, a, 0), 1);
+    is(x.span(0, 0, 1), 4);
+    says("3: not 0 .. 129600 (a, b of 4)");
+    x.contract();
+    bounds(MINUTES, 129600);
+    says("3: a, b of others mean nothing.");
+    x.contract();
+    for (int v : new int[] {-1, 5, 1441, 129601, LEAST_INT, MOST_INT}) {
+      for (int sort : new int[] {ALL, FREE}) {
+        term(0, EXCEPT, sort, v, -v);
+        is(x.span(0, 0, 1), v);
+        is(x.span(0, 0, 2), -v);
+      }
+      term(0, EXCEPT, STATED, 2, v);
+      is(x.span(0, 0, 2), v);
     }
-    is(x.span(0, 59, 0), 3);
-    is(x.span(0, 59, 2), Integer.MIN_VALUE);
+  }
+
+  private static void bounds(int sort, int most) {
+    int[] fine = {0, 1, most - 1, most};
+    for (int a : fine) {
+      for (int b : fine) {
+        term(0, EXCEPT, sort, a, b);
+        due(x.span(0, 0, 1), a);
+        due(x.span(0, 0, 2), b);
+      }
+    }
+    for (int bad : new int[] {-1, most + 1, LEAST_INT, MOST_INT}) {
+      no(x.term(0, 0, HALF, sort, bad, 0), 1);
+      no(x.term(0, 0, HALF, sort, most, bad), 1);
+      no(x.term(0, 0, HALF, sort, bad, bad), 1);
+    }
+    is(x.kind(0, 0), EXCEPT);
+    is(x.span(0, 0, 1), most);
   }
 
   private static void yields() {
-    begin(4);
-    no(x.yields(0, 0, 0), 2);
+    says("4: The TERM there YIELDS so: what its YIELDS were.");
+    x.contract();
+    term(0, HALF, ALL, 0, 0);
+    term(1, HALF, ALL, 0, 0);
+    int was = 0;
+    for (int bits = 31; bits >= 0; bits--) {
+      is(x.yields(0, 0, bits), was);
+      is(x.span(0, 0, 3), bits);
+      was = bits;
+    }
+    is(x.span(0, 1, 3), 0);
+    says("4: Refused: not 0 .. 31 (1), nothing there (2), a HEADING (3).");
     x.contract();
     no(x.yields(0, 0, 0), 2);
-    no(x.yields(0, 0, 32), 1);
-    yes(x.heading(0, 1, 1));
-    no(x.yields(0, 1, 0), 3);
-    no(x.yields(0, 1, -1), 1);
-    term(2, HALF, 0, 0, 0);
-    is(x.yields(0, 2, 31), 0);
-    is(x.yields(0, 2, 4), 31);
-    no(x.yields(0, 2, 32), 1);
-    no(x.yields(0, 2, -1), 1);
-    is(x.span(0, 2, 3), 4);
-    no(x.yields(0, 60, 4), 1);
-    no(x.yields(40, 2, 4), 1);
-    no(x.yields(1, 2, 4), 2);
-  }
-
-  /** How YIELDS choose the one that tells a minute. */
-  private static void yielding() {
-    promise = 4;
-    ship(1);
-    allow(0, 0, 1440);
-    term(1, EXCEPT, 0, 0, 0);
-    term(2, HALF, 0, 0, 0);
-    is(x.why(0, 5, LOW), 2);
-    x.yields(0, 2, 1 << EXCEPT);
-    is(x.why(0, 5, LOW), 1);
-    x.yields(0, 1, 1 << HALF);
-    is(x.why(0, 5, LOW), 0);
-    x.yields(0, 0, 1 << HALF);
-    is(x.why(0, 5, LOW), 2);
-    // The bit of its own KIND: it yields to another one alone, not to itself.
-    x.yields(0, 2, 1 << HALF);
-    is(x.why(0, 5, LOW), 2);
-    term(3, HALF, 0, 0, 0);
-    is(x.why(0, 5, LOW), 3);
-    x.yields(0, 3, 1 << HALF);
-    is(x.why(0, 5, LOW), 3);
-    x.yields(0, 2, 0);
-    is(x.why(0, 5, LOW), 2);
-    // One that is not asked is yielded to by none.
-    term(3, ALWAYS, 0, 0, 0);
-    x.yields(0, 2, 1 << ALWAYS);
-    is(x.why(0, 5, LOW), 2);
-    term(3, EXCEPT, 1, 600, 700);
-    x.yields(0, 3, 0);
-    x.yields(0, 2, 1 << EXCEPT);
-    yes(x.strike(0, 1));
-    is(x.why(0, 599, LOW), 2);
-    is(x.why(0, 600, LOW), 3);
-    is(x.why(0, 699, LOW), 3);
-    is(x.why(0, 700, LOW), 2);
+    yes(x.heading(0, 0, 1));
+    no(x.yields(0, 0, 0), 3);
+    is(x.headed(0, 0), 1);
+    term(0, HALF, ALL, 0, 0);
+    is(x.yields(0, 0, 31), 0);
+    for (int bad : new int[] {-1, 32, LEAST_INT, MOST_INT}) no(x.yields(0, 0, bad), 1);
+    is(x.yields(0, 0, 0), 31);
+    yes(x.strike(0, 0));
+    no(x.yields(0, 0, 31), 2);
   }
 
   private static void amount() {
-    begin(5);
+    says("5: The TERM there has this AMOUNT, -1000000 .. 1000000: true.");
+    x.contract();
+    term(0, EXCEPT, ALL, 0, 0);
+    term(1, EXCEPT, ALL, 0, 0);
+    for (int v : new int[] {-1000000, -1, 0, 1, 1000000}) {
+      yes(x.amount(0, 0, v));
+      is(x.span(0, 0, 4), v);
+    }
+    is(x.span(0, 1, 4), 0);
+    says("5: Refused: another one (1), nothing there (2), a HEADING (3).");
     x.contract();
     no(x.amount(0, 0, 0), 2);
-    no(x.amount(0, 0, 1000001), 1);
-    yes(x.heading(0, 1, 1));
-    no(x.amount(0, 1, 0), 3);
-    no(x.amount(0, 1, -1000001), 1);
-    term(2, ALLOW, 0, 0, 0);
-    yes(x.amount(0, 2, 1000000));
-    is(x.span(0, 2, 4), 1000000);
-    yes(x.amount(0, 2, -1000000));
-    is(x.span(0, 2, 4), -1000000);
-    no(x.amount(0, 2, 1000001), 1);
-    no(x.amount(0, 2, -1000001), 1);
-    no(x.amount(0, 60, 1), 1);
-    no(x.amount(1, 2, 1), 2);
-    no(x.amount(-1, 2, 1), 1);
-    is(x.span(0, 2, 4), -1000000);
+    yes(x.heading(0, 0, 1));
+    no(x.amount(0, 0, 0), 3);
+    is(x.headed(0, 0), 1);
+    term(0, ALLOW, ALL, 0, 0);
+    for (int bad : new int[] {-1000001, 1000001, LEAST_INT, MOST_INT}) no(x.amount(0, 0, bad), 1);
+    is(x.span(0, 0, 4), 0);
+    yes(x.strike(0, 0));
+    no(x.amount(0, 0, 1000000), 2);
   }
 
   private static void heading() {
-    begin(6);
-    no(x.heading(0, 0, 5), 2);
-    x.contract();
-    yes(x.heading(0, 0, Integer.MIN_VALUE));
-    is(x.headed(0, 0), Integer.MIN_VALUE);
-    is(x.kind(0, 0), 5);
-    yes(x.heading(0, 0, NONE));
-    is(x.headed(0, 0), NONE);
-    term(0, ALLOW, 0, 0, 0);
-    yes(x.heading(0, 0, 8));
-    is(x.kind(0, 0), 5);
-    no(x.heading(0, 60, 5), 1);
-    no(x.heading(0, -1, 5), 1);
-    no(x.heading(40, 0, 5), 1);
-    no(x.heading(1, 0, 5), 2);
+    says("6: The PLACE holds a HEADING: true.");
     ship(1);
-    yes(x.heading(0, 0, 8));
-    is(x.told(0, 3), 0);
-    is(x.why(0, 0, LOW), -2);
+    for (int was = 0; was < 3; was++) {
+      if (was == 1) allow(0, 0, 30);
+      yes(x.heading(0, 0, -was));
+      is(x.kind(0, 0), 5);
+      is(x.headed(0, 0), -was);
+      // It is no TERM: none is allowed, none tells.
+      is(x.told(0, ALLOWED), 0);
+      is(x.why(0, 0, LOW), NEITHER);
+    }
+    yes(x.heading(0, 59, MOST_INT));
+    is(x.headed(0, 59), MOST_INT);
+    is(x.headed(0, 0), -2);
   }
 
   private static void strike() {
-    begin(7);
-    no(x.strike(0, 0), 2);
-    x.contract();
-    no(x.strike(0, 0), 2);
-    term(0, ALLOW, 0, 0, 0);
-    yes(x.strike(0, 0));
-    is(x.kind(0, 0), 6);
-    no(x.strike(0, 0), 2);
-    yes(x.heading(0, 59, 1));
-    yes(x.strike(0, 59));
-    is(x.kind(0, 59), 6);
-    no(x.strike(0, 60), 1);
-    no(x.strike(-1, 0), 1);
+    says("7: The PLACE holds nothing: true.");
     ship(1);
     allow(0, 0, 10);
+    yes(x.heading(0, 59, 1));
     yes(x.strike(0, 0));
-    is(x.sum(0, 1, LOW), 0);
+    is(x.kind(0, 0), 6);
+    is(x.sum(0, LIMIT, LOW), 0);
+    is(x.kind(0, 59), 5);
+    yes(x.strike(0, 59));
+    is(x.kind(0, 59), 6);
+    says("7: Refused (2) if it did.");
+    x.contract();
+    no(x.strike(0, 0), 2);
+    yes(x.heading(0, 0, 0));
+    no(x.strike(0, 1), 2);
+    yes(x.strike(0, 0));
+    no(x.strike(0, 0), 2);
+    term(0, ALLOW, ALL, 0, 0);
+    yes(x.strike(0, 0));
+    no(x.strike(0, 0), 2);
   }
 
   private static void kind() {
-    begin(8);
-    no(x.kind(0, 0), 2);
-    no(x.kind(40, 0), 1);
-    no(x.kind(0, 60), 1);
-    no(x.kind(0, -1), 1);
+    says("8: What a PLACE holds: the KIND of its TERM, 5 a HEADING, 6 nothing.");
     x.contract();
-    is(x.kind(0, 0), 6);
-    term(0, HALF, 0, 0, 0);
-    is(x.kind(0, 0), 4);
-    yes(x.heading(0, 0, 3));
-    is(x.kind(0, 0), 5);
+    is(x.kind(0, 59), 6);
+    for (int kind = 0; kind < 5; kind++) {
+      term(59, kind, ALL, 0, 0);
+      is(x.kind(0, 59), kind);
+    }
+    yes(x.heading(0, 59, 6));
+    is(x.kind(0, 59), 5);
+    yes(x.strike(0, 59));
+    is(x.kind(0, 59), 6);
   }
 
   private static void headed() {
-    begin(9);
-    no(x.headed(0, 0), 2);
+    says("9: The HEADING there.");
+    x.contract();
+    for (int v : new int[] {0, -1, LEAST_INT, MOST_INT}) {
+      yes(x.heading(0, 7, v));
+      is(x.headed(0, 7), v);
+    }
+    says("9: Refused: nothing there (2), a TERM (3).");
     x.contract();
     no(x.headed(0, 0), 2);
-    term(0, HALF, 0, 0, 0);
-    no(x.headed(0, 0), 3);
+    for (int kind = 0; kind < 5; kind++) {
+      term(0, kind, ALL, 5, 0);
+      no(x.headed(0, 0), 3);
+    }
     yes(x.heading(0, 0, 77));
     is(x.headed(0, 0), 77);
-    no(x.headed(0, 60), 1);
-    no(x.headed(-1, 0), 1);
+    yes(x.strike(0, 0));
+    no(x.headed(0, 0), 2);
   }
 
   private static void span() {
-    begin(10);
-    no(x.span(0, 0, 0), 2);
-    no(x.span(0, 0, 5), 1);
+    says("10: Of the TERM there, what 0 SORT, 1 a, 2 b (as they were given), 3 YIELDS, 4 AMOUNT.");
     x.contract();
-    no(x.span(0, 0, 0), 2);
-    no(x.span(0, 0, -1), 1);
-    yes(x.heading(0, 1, 5));
-    no(x.span(0, 1, 0), 3);
-    no(x.span(0, 1, 5), 1);
-    term(2, EXCEPT, 1, 1300, 200);
-    x.yields(0, 2, 21);
-    yes(x.amount(0, 2, -9));
-    int[] want = {1, 1300, 200, 21, -9};
-    for (int what = 0; what < 5; what++) is(x.span(0, 2, what), want[what]);
-    no(x.span(0, 2, 5), 1);
-    no(x.span(0, 60, 0), 1);
+    int[][] given = {{ALL, -5, MOST_INT}, {HOURS, 1300, 200}, {FREE, LEAST_INT, 7}, {STATED, 4, -9}, {MINUTES, 129600, 0}};
+    for (int[] g : given) {
+      term(2, EXCEPT, g[0], g[1], g[2]);
+      is(x.yields(0, 2, 21), 0);
+      yes(x.amount(0, 2, -9));
+      for (int what = 0; what < 3; what++) is(x.span(0, 2, what), g[what]);
+      is(x.span(0, 2, 3), 21);
+      is(x.span(0, 2, 4), -9);
+    }
+    says("10: Refused: another what (1), nothing there (2), a HEADING (3).");
+    x.contract();
+    for (int what = 0; what < 5; what++) no(x.span(0, 0, what), 2);
+    yes(x.heading(0, 0, 5));
+    for (int what = 0; what < 5; what++) no(x.span(0, 0, what), 3);
+    term(0, EXCEPT, ALL, 0, 0);
+    for (int bad : new int[] {-1, 5, LEAST_INT, MOST_INT}) no(x.span(0, 0, bad), 1);
+    is(x.span(0, 0, 4), 0);
   }
 
-  /** SPANS of each SORT, seen in which TERM tells a minute. */
-  private static void spans() {
-    promise = 10;
-    ship(3);
-    allow(0, 0, 5000);
-    term(1, EXCEPT, 1, 1080, 480);
-    is(x.why(0, 479, LOW), 1);
-    is(x.why(0, 480, LOW), 0);
-    is(x.why(0, 1079, LOW), 0);
-    is(x.why(0, 1080, LOW), 1);
-    is(x.why(0, 1440 + 479, LOW), 1);
-    is(x.why(0, 1440 + 480, LOW), 0);
-    term(1, EXCEPT, 1, 480, 480);
-    is(x.by(0, 1, LOW), 0);
-    term(1, EXCEPT, 1, 0, 1440);
-    is(x.by(0, 1, LOW), 4320);
-    term(1, EXCEPT, 1, 1440, 0);
-    is(x.by(0, 1, LOW), 0);
-    term(1, EXCEPT, 1, 1440, 1);
-    is(x.by(0, 1, LOW), 3);
-    term(1, EXCEPT, 2, 0, 0);
-    is(x.by(0, 1, LOW), 0);
-    is(x.free(0, 1, true), false);
-    is(x.by(0, 1, LOW), 1440);
-    is(x.why(0, 1439, LOW), 0);
-    is(x.why(0, 1440, LOW), 1);
-    is(x.why(0, 2879, LOW), 1);
-    is(x.why(0, 2880, LOW), 0);
-    yes(x.event(0, 100, RAIN));
-    yes(x.event(0, 150, BEGAN));
-    yes(x.event(0, 1500, RAIN));
-    term(1, EXCEPT, 3, 2, 0);
-    is(x.by(0, 1, LOW), 50 + 2820);
-    is(x.why(0, 100, LOW), 1);
-    is(x.why(0, 150, LOW), 0);
-    term(1, EXCEPT, 3, 0, 0);
-    is(x.by(0, 1, LOW), 100);
-    term(1, EXCEPT, 4, 1000, 3000);
-    is(x.by(0, 1, LOW), 2000);
-    is(x.why(0, 999, LOW), 0);
-    is(x.why(0, 1000, LOW), 1);
-    is(x.why(0, 2999, LOW), 1);
-    is(x.why(0, 3000, LOW), 0);
-    term(1, EXCEPT, 4, 3000, 1000);
-    is(x.by(0, 1, LOW), 0);
-    term(1, EXCEPT, 4, 4319, 129600);
-    is(x.by(0, 1, LOW), 1);
-  }
+  // ---- 11 to 22: PORTS
 
   private static void port() {
-    begin(11);
-    no(x.port(0, 0, 1), 2);
-    no(x.port(8, 0, 1), 1);
-    no(x.port(0, 0, 91), 1);
+    says("11: this CONTRACT, so many DAYS, all there and whole, without EVENTS, no FREE day, TONS 0, OFFICE 0 to 1440, GRACE 0, OFFSET 0, RATE and BACK 0");
     x.contract();
-    yes(x.port(7, 0, 90));
-    is(x.told(7, 4), 90);
-    no(x.port(0, 0, 0), 1);
-    no(x.port(0, 0, 91), 1);
-    no(x.port(0, 40, 1), 1);
-    no(x.port(0, 1, 1), 2);
-    no(x.port(-1, 0, 1), 1);
-    no(x.port(8, 0, 1), 1);
-    no(x.told(0, 4), 2);
+    isNew(90, 0);
+    says("11: The PORT is open anew: what it had is gone.");
+    ship(2);
     x.contract();
-    open(7, 1, 2);
-    is(x.told(7, 7), 1);
-    yes(x.tons(7, 12345));
-    yes(x.office(7, 5, 6, 7));
-    yes(x.offset(7, 9));
-    yes(x.rate(7, 10, 11));
-    is(x.free(7, 1, true), false);
-    is(x.tear(7, 0, 500), 0);
-    allow(0, 0, 1);
-    // Open anew, it has nothing of what it had.
-    yes(x.port(7, 0, 2));
+    allowAside(3000);
+    yes(x.port(0, 1, 3));
+    is(x.told(0, CONTRACT), 1);
+    yes(x.event(0, 1500, ARRIVED));
+    yes(x.event(0, 1500, NOTICE));
+    yes(x.event(0, 1500, ENDED));
+    yes(x.tons(0, 12345));
+    yes(x.office(0, 5, 6, 7));
+    yes(x.offset(0, 9));
+    yes(x.rate(0, 10000, 10000));
+    for (int d = 0; d < 3; d++) is(x.free(0, d, true), false);
+    is(x.tear(0, 0, 500), 0);
+    yes(x.day(0, 2, false));
+    isNew(3, 0);
+  }
+
+  /** PORT 0, opened just now, is as a new one. */
+  private static void isNew(int days, int c) {
+    yes(x.port(0, c, days));
     due(x.status(7), 0);
-    is(x.told(7, 0), NONE);
-    is(x.told(7, 5), 0);
-    is(x.told(7, 6), 0);
-    is(x.told(7, 7), 0);
-    is(x.weight(7, 0), 0);
-    is(x.weight(7, 1), 0);
-    yes(x.event(7, 0, ARRIVED));
-    yes(x.event(7, 0, NOTICE));
-    is(x.told(7, 0), 0);
-    is(x.told(7, 1), 0);
-    is(x.sum(7, 2, LOW), 0);
-    is(x.sum(7, 3, LOW), 5758);
-    is(x.sum(7, 5, LOW), 0);
-    is(x.free(7, 1, false), false);
-    yes(x.event(7, 2000, ENDED));
-    yes(x.amount(0, 0, 3000));
-    is(x.sum(7, 4, LOW), 2000);
-    is(x.sum(7, 5, LOW), 0);
-    // It is a GROUP of its own; the others stay together.
-    open(0, 0, 1);
+    int[] told = {NONE, NONE, NONE, x.told(0, ALLOWED), days, 0, 0, c};
+    for (int what = 0; what < 8; what++) is(x.told(0, what), told[what]);
+    is(x.weight(0, 0), 0);
+    is(x.weight(0, 1), 0);
+    is(x.state(0, 0), 0);
+    is(x.state(0, days * 1440 - 1), 0);
+    for (int d = 0; d < days; d++) due(x.free(0, d, false) ? 1 : 0, 0);
+    yes(x.event(0, 0, ARRIVED));
+    yes(x.event(0, 0, NOTICE));
+    is(x.told(0, GOOD), 0);
+    is(x.told(0, BEGIN), 0);
+    is(x.sum(0, ONCE, LOW), x.told(0, ALLOWED) - 1);
+    is(x.sum(0, MONEY, LOW), 0);
+    is(x.tear(0, days - 1, 0), days == 1 ? 2 : 0);
+    yes(x.event(0, 1, ENDED));
+    is(x.sum(0, MONEY, LOW), 0);
+    // OFFICE to 1440: the last minute of a DAY, too.
+    yes(x.port(0, c, 1));
+    yes(x.event(0, 1439, ARRIVED));
+    yes(x.event(0, 1439, NOTICE));
+    is(x.told(0, GOOD), 1439);
+  }
+
+  private static void portAlone() {
+    says("11: It is a GROUP of its own.");
+    ship(1);
     open(1, 0, 1);
     open(2, 0, 1);
     yes(x.together(7));
-    is(x.sum(0, 8, LOW), 3);
+    is(x.sum(0, COUNTING, LOW), 3);
+    open(0, 0, 1);
+    is(x.sum(0, LEAST, LOW), 0);
+    is(x.sum(0, COUNTING, LOW), 1);
+    is(x.sum(1, LEAST, LOW), 1);
+    is(x.sum(2, LEAST, LOW), 1);
+    is(x.sum(2, COUNTING, LOW), 2);
+    open(3, 0, 1);
+    is(x.sum(3, COUNTING, LOW), 1);
+    says("11: Refused (1) for another number of DAYS.");
+    x.contract();
     yes(x.port(0, 0, 1));
-    is(x.sum(1, 7, LOW), 1);
-    is(x.sum(1, 8, LOW), 2);
-    is(x.sum(2, 7, LOW), 1);
-    is(x.sum(0, 7, LOW), 0);
-    is(x.sum(0, 8, LOW), 0);
+    yes(x.port(1, 0, 90));
+    for (int bad : new int[] {0, -1, 91, LEAST_INT, MOST_INT}) {
+      no(x.port(0, 0, bad), 1);
+      no(x.port(2, 0, bad), 1);
+    }
+    is(x.told(0, DAYS), 1);
+    is(x.told(1, DAYS), 90);
+    no(x.told(2, DAYS), 2);
   }
 
   private static void close() {
-    begin(12);
-    no(x.close(0), 2);
-    no(x.close(8), 1);
-    no(x.close(-1), 1);
+    says("12: The PORT is no more open.");
     ship(2);
     open(3, 0, 2);
     yes(x.together(9));
@@ -417,922 +335,985 @@ public final class PromiseTest {
     due(x.status(7), 2);
     no(x.close(0), 2);
     no(x.sum(0, 0, LOW), 2);
-    is(x.sum(3, 7, LOW), 3);
+    no(x.together(9), 2);
+    is(x.sum(3, LEAST, LOW), 3);
+    is(x.sum(3, COUNTING, LOW), 1);
     open(0, 0, 1);
-    is(x.sum(3, 7, LOW), 3);
-    is(x.sum(3, 8, LOW), 1);
-    is(x.told(0, 5), 2);
+    is(x.sum(3, LEAST, LOW), 3);
+    is(x.told(0, EVENTS), 2);
+    yes(x.close(3));
+    no(x.told(3, DAYS), 2);
+    is(x.told(0, DAYS), 1);
   }
 
   private static void event() {
-    begin(13);
-    no(x.event(0, 0, 0), 2);
-    no(x.event(0, 129600, 0), 1);
-    no(x.event(0, 0, 8), 1);
+    says("13: An EVENT comes to minute m.");
     x.contract();
     yes(x.port(0, 0, 2));
-    for (int kind = 0; kind < 8; kind++) yes(x.event(0, 2879, kind));
-    is(x.told(0, 5), 8);
-    no(x.event(0, 0, 8), 1);
-    no(x.event(0, 0, -1), 1);
-    no(x.event(0, -1, 0), 1);
-    no(x.event(0, 2880, 0), 1);
-    no(x.event(8, 0, 0), 1);
-    no(x.event(1, 0, 0), 2);
-    yes(x.day(0, 0, false));
-    no(x.event(0, 0, 0), 2);
-    no(x.event(0, 1439, 0), 2);
-    is(x.tear(0, 1, 60), 8);
-    no(x.event(0, 1500, 0), 2);
-    yes(x.event(0, 1499, 0));
-    due(x.status(7), 1);
-    // Those of one minute stand in the order in which they came.
-    ship(1);
-    yes(x.event(0, 50, BEGAN));
-    yes(x.event(0, 50, SHIFTED));
-    yes(x.event(0, 50, RAIN));
-    yes(x.event(0, 40, STOPPED));
-    is(x.state(0, 49), 3);
-    is(x.state(0, 50), 2);
-  }
-
-  /** Fills the desk with 5000 EVENTS: 50 in each of 90 DAYS of PORT 0, 500 of PORT 1. */
-  private static void full() {
-    fresh();
-    x.contract();
-    yes(x.port(0, 0, 90));
-    yes(x.port(1, 0, 11));
-    for (int i = 0; i < 50; i++) yes(x.event(0, i * 20, i % 8));
-    for (int d = 1; d < 90; d *= 2) is(x.copy(0, d, 0, 0, Math.min(d, 90 - d)), Math.min(d, 90 - d));
-    is(x.copy(1, 0, 0, 0, 10), 10);
-    due(x.status(7), 5000);
-  }
-
-  private static void fullOfEvents() {
-    promise = 13;
+    int n = 0;
+    for (int m : new int[] {2879, 0, 1439, 1440, 0, 2879}) {
+      yes(x.event(0, m, BEGAN + n % 4));
+      is(x.state(0, m), 1 + n % 4);
+      n++;
+      is(x.told(0, EVENTS), n);
+      due(x.status(7), n);
+    }
+    says("13: Refused: m is UNKNOWN (2)");
+    ship(3);
+    yes(x.day(0, 1, false));
+    is(x.tear(0, 2, 600), 0);
+    no(x.event(0, 1440, BEGAN), 2);
+    no(x.event(0, 2879, BEGAN), 2);
+    yes(x.event(0, 1439, BEGAN));
+    yes(x.event(0, 2880, BEGAN));
+    yes(x.event(0, 3479, BEGAN));
+    no(x.event(0, 3480, BEGAN), 2);
+    no(x.event(0, 4319, BEGAN), 2);
+    is(x.told(0, EVENTS), 5);
+    says("13: there are 5000 (5).");
     full();
-    no(x.event(1, 14400, 0), 5);
-    no(x.event(0, 0, 0), 5);
-    no(x.event(0, 0, 9), 1);
-    no(x.event(2, 0, 0), 2);
-    yes(x.day(1, 0, false));
-    due(x.status(7), 4950);
-    no(x.event(1, 0, 0), 2);
-    yes(x.event(1, 14400, 0));
-    due(x.status(7), 4951);
-    yes(x.close(0));
-    due(x.status(7), 451);
+    is(x.tear(1, 9, 980), 1);
+    yes(x.event(1, 14400, BEGAN));
+    due(x.status(7), 5000);
+    no(x.event(1, 14400, BEGAN), 5);
+    no(x.event(0, 0, BEGAN), 5);
+    yes(x.day(1, 10, true));
+    due(x.status(7), 4999);
+    yes(x.event(0, 0, BEGAN));
+    no(x.event(0, 0, BEGAN), 5);
+    yes(x.close(1));
+    due(x.status(7), 4501);
+    yes(x.event(0, 0, BEGAN));
   }
 
   private static void day() {
-    begin(14);
-    no(x.day(0, 0, true), 2);
-    no(x.day(0, 90, true), 1);
+    says("14: DAY d is there, whole, without EVENTS (is)");
     ship(3);
-    is(x.tear(0, 0, 700), 0);
-    yes(x.event(0, 1440, BEGAN));
-    yes(x.event(0, 2880, RAIN));
-    yes(x.day(0, 1, false));
-    is(x.told(0, 6), 740 + 1440);
-    is(x.told(0, 5), 3);
-    is(x.state(0, 699), 0);
-    no(x.state(0, 700), 2);
-    no(x.state(0, 1440), 2);
-    is(x.state(0, 2880), 2);
+    for (int d = 0; d < 3; d++) {
+      yes(x.event(0, d * 1440, BEGAN));
+      yes(x.event(0, d * 1440 + 1439, RAIN));
+    }
+    is(x.tear(0, 1, 700), 1);
+    due(x.status(7), 7);
     yes(x.day(0, 1, true));
-    is(x.told(0, 6), 740);
-    is(x.told(0, 5), 3);
-    is(x.state(0, 1440), 0);
+    due(x.status(7), 6);
+    is(x.told(0, UNKNOWN), 0);
+    is(x.state(0, 1440), 2);
+    is(x.state(0, 2879), 2);
+    is(x.state(0, 2880), 1);
+    yes(x.day(0, 2, true));
     yes(x.day(0, 0, true));
-    is(x.told(0, 6), 0);
-    is(x.told(0, 5), 1);
+    due(x.status(7), 0);
+    is(x.told(0, GOOD), NONE);
+    says("14: or missing.");
+    ship(3);
+    for (int d = 0; d < 3; d++) yes(x.event(0, d * 1440 + 1439, RAIN));
+    yes(x.day(0, 1, false));
+    yes(x.day(0, 1, false));
+    is(x.told(0, UNKNOWN), 1440);
+    is(x.told(0, EVENTS), 4);
     yes(x.day(0, 2, false));
-    yes(x.day(0, 2, false));
-    is(x.told(0, 5), 0);
-    no(x.day(0, 3, true), 1);
-    no(x.day(0, -1, true), 1);
-    no(x.day(0, 90, true), 1);
-    no(x.day(1, 2, true), 2);
-    no(x.day(8, 2, true), 1);
+    yes(x.day(0, 0, false));
+    is(x.told(0, UNKNOWN), 4320);
+    due(x.status(7), 0);
+    is(x.told(0, DAYS), 3);
+    yes(x.day(0, 2, true));
+    is(x.told(0, UNKNOWN), 2880);
+    yes(x.event(0, 4319, RAIN));
   }
 
   private static void tear() {
-    begin(15);
-    no(x.tear(0, 0, 0), 2);
-    no(x.tear(0, 0, 1440), 1);
+    says("15: DAY d is TORN from its minute t on (0 .. 1439), or from where it was TORN if that is ahead");
     ship(3);
-    yes(x.event(0, 1500, BEGAN));
-    yes(x.event(0, 1600, BEGAN));
-    yes(x.event(0, 1600, RAIN));
-    yes(x.event(0, 2879, ENDED));
-    yes(x.event(0, 2880, STOPPED));
+    int[] tear = {1439, 900, 900, 901, 1439, 1, 2, 0, 1439};
+    int[] torn = {1439, 900, 900, 900, 900, 1, 1, 0, 0};
+    for (int i = 0; i < tear.length; i++) {
+      is(x.tear(0, 1, tear[i]), 0);
+      is(x.told(0, UNKNOWN), 1440 - torn[i]);
+      no(x.state(0, 1440 + torn[i]), 2);
+      is(x.state(0, 1440 + torn[i] - 1), 0);
+    }
+    for (int bad : new int[] {-1, 1440, LEAST_INT, MOST_INT}) no(x.tear(0, 0, bad), 1);
+    is(x.told(0, UNKNOWN), 1440);
+    says("15: EVENTS from there on are gone: how many.");
+    ship(3);
+    for (int m : new int[] {1439, 1440, 1500, 1600, 1600, 2879, 2880}) yes(x.event(0, m, BERTHED));
     is(x.tear(0, 1, 1439), 1);
-    is(x.told(0, 6), 1);
+    is(x.tear(0, 1, 161), 0);
     is(x.tear(0, 1, 160), 2);
-    is(x.tear(0, 1, 900), 0);
-    is(x.told(0, 6), 1280);
-    is(x.state(0, 1599), 1);
-    no(x.state(0, 1600), 2);
-    is(x.state(0, 2880), 3);
-    is(x.tear(0, 1, 0), 1);
-    is(x.told(0, 6), 1440);
-    is(x.tear(0, 1, 5), 0);
-    no(x.tear(0, 1, 1440), 1);
-    no(x.tear(0, 1, -1), 1);
-    no(x.tear(0, 3, 5), 1);
-    no(x.tear(0, 90, 5), 1);
+    is(x.tear(0, 1, 700), 0);
+    is(x.tear(0, 1, 0), 2);
+    is(x.told(0, EVENTS), 4);
+    is(x.tear(0, 0, 0), 3);
+    is(x.tear(0, 2, 0), 1);
+    due(x.status(7), 0);
+    says("15: Refused (2) if it is missing.");
+    ship(2);
     yes(x.day(0, 1, false));
-    no(x.tear(0, 1, 5), 2);
+    for (int t : new int[] {0, 700, 1439}) no(x.tear(0, 1, t), 2);
     no(x.tear(0, 1, 1440), 1);
-    no(x.tear(1, 0, 5), 2);
-    is(x.told(0, 5), 3);
+    yes(x.day(0, 1, true));
+    is(x.tear(0, 1, 1439), 0);
   }
 
+  // ---- 16: copy
+
   private static void copy() {
-    begin(16);
-    no(x.copy(0, 0, 0, 0, 0), 2);
-    no(x.copy(0, 0, 0, 90, 0), 1);
+    says("16: DAYS e, e + 1 .. of PORT q come to d, d + 1 .. of PORT p");
     ship(5);
     open(1, 0, 3);
-    no(x.copy(0, 0, 2, 0, 1), 2);
-    no(x.copy(2, 0, 0, 0, 1), 2);
-    no(x.copy(0, 5, 2, 0, 1), 1);
-    no(x.copy(0, 0, 1, 3, 1), 1);
-    no(x.copy(0, -1, 1, 0, 1), 1);
-    no(x.copy(0, 0, 1, 0, 91), 1);
-    no(x.copy(0, 0, 1, 0, -1), 1);
-    no(x.copy(8, 0, 1, 0, 1), 1);
-    is(x.copy(0, 0, 1, 0, 0), 0);
     yes(x.event(1, 10, BEGAN));
     yes(x.event(1, 10, RAIN));
     is(x.tear(1, 1, 30), 0);
     yes(x.event(1, 1440 + 29, STOPPED));
-    yes(x.day(1, 2, false));
-    is(x.free(1, 0, true), false);
+    yes(x.event(1, 2880, SHIFTED));
+    for (int d = 1; d < 5; d++) yes(x.event(0, d * 1440 + 700, BEGAN));
     is(x.copy(0, 1, 1, 0, 3), 3);
-    is(x.told(0, 5), 2 + 5);
-    is(x.told(0, 6), 1410 + 1440);
-    is(x.state(0, 1440 + 10), 2);
+    is(x.told(0, EVENTS), 2 + 4 + 1 + 1 + 1);
+    is(x.told(0, UNKNOWN), 1410);
     is(x.state(0, 1440 + 9), 0);
+    is(x.state(0, 1440 + 10), 2);
     is(x.state(0, 2880 + 29), 3);
     no(x.state(0, 2880 + 30), 2);
-    no(x.state(0, 3 * 1440), 2);
-    is(x.free(0, 1, false), false);
-    // What comes takes the place of what was there.
-    is(x.copy(0, 1, 0, 4, 1), 1);
-    is(x.told(0, 5), 2 + 1);
-    // Fewer than n: behind the end of either LOG.
-    due(x.copy(0, 4, 1, 0, 2), 1);
-    due(x.status(0), 4);
-    is(x.told(0, 5), 2 + 1 + 4);
-    due(x.copy(0, 0, 1, 2, 90), 1);
-    due(x.status(0), 4);
-    due(x.status(4), 2);
-    is(x.told(0, 5), 1 + 4);
-    no(x.state(0, 0), 2);
+    is(x.state(0, 3 * 1440), 4);
+    is(x.state(0, 4 * 1440 + 699), 4);
+    is(x.state(0, 4 * 1440 + 700), 1);
+    // What they come from stays.
+    is(x.told(1, EVENTS), 6);
+    is(x.told(1, UNKNOWN), 1410);
+    says("16: missing ones, too");
+    ship(3);
+    open(1, 0, 3);
+    yes(x.day(1, 1, false));
+    yes(x.event(0, 1440, BEGAN));
+    yes(x.day(0, 2, false));
+    is(x.copy(0, 1, 1, 1, 2), 2);
+    is(x.told(0, UNKNOWN), 1440);
+    is(x.told(0, EVENTS), 2);
+    no(x.state(0, 1440), 2);
+    is(x.state(0, 2880), 0);
+    // A DAY is FREE by the PORT, not by what its LOG holds.
+    is(x.free(1, 0, true), false);
+    is(x.free(0, 2, true), false);
+    is(x.copy(0, 0, 1, 0, 3), 3);
+    is(x.free(0, 0, false), false);
+    is(x.free(0, 2, false), true);
   }
 
-  private static void copyOfItself() {
-    promise = 16;
+  private static void copyAtFirst() {
+    says("16: as they were at first");
     ship(4);
-    for (int d = 0; d < 4; d++) yes(x.event(0, d * 1440 + d, BEGAN + d % 4));
-    yes(x.event(0, 2, BERTHED));
-    // DAYS as they were at first, though they overlap: each d + 1 is what d was.
+    for (int d = 0; d < 4; d++) yes(x.event(0, d * 1440 + d, BEGAN + d));
+    is(x.tear(0, 0, 600), 0);
+    // Each d + 1 is what d was.
     is(x.copy(0, 1, 0, 0, 3), 3);
     for (int d = 0; d < 3; d++) is(x.state(0, (d + 1) * 1440 + d), 1 + d);
-    due(x.status(7), 4 + 4 + 1 + 1);
+    is(x.told(0, UNKNOWN), 2 * 840);
+    due(x.status(7), 3 + 3 + 1 + 1);
+    // Each d is what d + 1 was.
     is(x.copy(0, 0, 0, 1, 3), 3);
     for (int d = 0; d < 3; d++) is(x.state(0, d * 1440 + d), 1 + d);
     is(x.state(0, 3 * 1440 + 2), 3);
-    is(x.copy(0, 2, 0, 2, 2), 2);
-    is(x.state(0, 3 * 1440 + 2), 3);
-    due(x.copy(0, 1, 0, 0, 4), 3);
+    is(x.told(0, UNKNOWN), 840);
+    // Each is what it was.
+    is(x.copy(0, 0, 0, 0, 4), 4);
+    for (int d = 0; d < 3; d++) is(x.state(0, d * 1440 + d), 1 + d);
+    is(x.told(0, UNKNOWN), 840);
+    due(x.copy(0, 2, 0, 0, 4), 2);
+    is(x.state(0, 3 * 1440 + 1), 2);
+  }
+
+  private static void copyMany() {
+    says("16: n of them (0 .. 90)");
+    x.contract();
+    yes(x.port(0, 0, 90));
+    yes(x.port(1, 0, 90));
+    for (int d = 0; d < 90; d++) yes(x.event(1, d * 1440 + d, BERTHED));
+    is(x.copy(0, 0, 1, 0, 0), 0);
+    is(x.told(0, EVENTS), 0);
+    is(x.copy(0, 89, 1, 89, 0), 0);
+    is(x.copy(0, 89, 1, 3, 1), 1);
+    is(x.told(0, EVENTS), 1);
+    is(x.copy(0, 0, 1, 0, 90), 90);
+    is(x.told(0, EVENTS), 90);
+    due(x.status(7), 180);
+    for (int bad : new int[] {-1, 91, LEAST_INT, MOST_INT}) no(x.copy(0, 0, 1, 0, bad), 1);
+    due(x.status(7), 180);
+  }
+
+  private static void copyBeyond() {
+    says("16: one by one up to the first that is beyond the end of either LOG: how many came; these stand, and status() tells 4");
+    ship(5);
+    open(1, 0, 3);
+    for (int d = 0; d < 3; d++) yes(x.event(1, d * 1440 + 5, BEGAN + d));
+    // The end of the LOG of PORT p, of q, of both.
+    due(x.copy(0, 4, 1, 0, 2), 1);
     due(x.status(0), 4);
+    is(x.state(0, 4 * 1440 + 5), 1);
+    due(x.copy(0, 0, 1, 2, 90), 1);
+    due(x.status(0), 4);
+    is(x.state(0, 5), 3);
+    due(x.copy(0, 3, 1, 1, 3), 2);
+    due(x.status(0), 4);
+    is(x.state(0, 3 * 1440 + 5), 2);
+    is(x.state(0, 4 * 1440 + 5), 3);
+    is(x.copy(0, 3, 1, 1, 2), 2);
+    due(x.copy(1, 0, 0, 3, 4), 2);
+    due(x.status(0), 4);
+    says("16: such a call is one of the refused, too");
+    ship(2);
+    due(x.copy(0, 0, 0, 1, 2), 1);
+    due(x.copy(0, 1, 0, 1, 90), 1);
+    due(x.status(0), 4);
+    due(x.status(4), 2);
+    due(x.status(5), 0);
+    full();
+    due(x.copy(1, 10, 0, 0, 1), 0);
+    due(x.status(0), 5);
+    due(x.status(5), 1);
+    due(x.status(4), 0);
   }
 
   private static void copyWhenFull() {
-    promise = 16;
+    says("16: or with which there would be more than 5000 EVENTS: how many came; these stand, and status() tells 5");
     full();
-    // One more DAY of EVENTS does not fit, the same in the place of another does.
     due(x.copy(1, 10, 0, 0, 1), 0);
     due(x.status(0), 5);
+    due(x.copy(1, 10, 0, 0, 2), 0);
+    due(x.status(0), 5);
+    due(x.status(7), 5000);
+    yes(x.day(0, 89, true));
+    is(x.copy(1, 10, 0, 0, 1), 1);
+    due(x.status(7), 5000);
+    // One EVENT too many.
+    yes(x.day(1, 10, true));
+    yes(x.event(0, 0, BERTHED));
+    due(x.copy(1, 10, 0, 1, 1), 0);
+    due(x.status(0), 5);
+    is(x.tear(0, 0, 980), 1);
+    is(x.copy(1, 10, 0, 1, 1), 1);
+    due(x.status(7), 5000);
+    // The first fits, the second does not: the first stands.
+    full();
+    is(x.tear(0, 2, 800), 10);
+    for (int i = 0; i < 10; i++) yes(x.event(0, 1440, SHIFTED));
+    due(x.copy(1, 0, 0, 0, 2), 1);
+    due(x.status(0), 5);
+    due(x.status(7), 5000);
+    is(x.copy(1, 0, 0, 2, 2), 2);
+    due(x.status(7), 4990);
+    // Both, in either order: the first of them is told.
+    full();
+    due(x.copy(1, 9, 0, 0, 3), 1);
+    due(x.status(0), 5);
+    due(x.copy(0, 89, 1, 0, 2), 1);
+    due(x.status(0), 4);
+    says("16: An EVENT of a DAY that goes for it is none of the 5000 any more.");
+    full();
     is(x.copy(1, 0, 0, 0, 10), 10);
+    due(x.status(7), 5000);
     is(x.copy(0, 0, 1, 10, 1), 1);
     due(x.status(7), 4950);
     is(x.copy(1, 10, 0, 1, 1), 1);
     due(x.status(7), 5000);
-    is(x.tear(1, 3, 500), 25);
-    // DAY 3 comes with fewer, DAY 4 goes with more: 5000 again, then the next is too many.
-    due(x.copy(1, 3, 0, 1, 90), 8);
-    due(x.status(0), 4);
-    due(x.status(7), 5000);
-    yes(x.day(1, 9, false));
-    yes(x.day(1, 10, false));
-    is(x.copy(1, 8, 0, 1, 3), 3);
-    no(x.event(1, 0, 0), 5);
-    // The DAYS that come have 50 and 60, those that go 50 and 50: there is room for the first alone.
-    full();
-    is(x.tear(0, 2, 800), 10);
-    for (int i = 0; i < 10; i++) yes(x.event(0, 1440, BERTHED));
-    due(x.copy(1, 0, 0, 0, 2), 1);
+    due(x.copy(0, 0, 1, 0, 1), 0);
     due(x.status(0), 5);
-    is(x.copy(1, 0, 0, 2, 2), 2);
-    due(x.status(7), 4990);
-    is(x.copy(0, 89, 0, 1, 1), 1);
     due(x.status(7), 5000);
-    // DAY 1 comes to 2 with the 60 that it had at first.
-    due(x.copy(0, 1, 0, 0, 2), 1);
-    due(x.status(0), 5);
-    due(x.status(7), 4990);
-    is(x.copy(0, 1, 0, 89, 1), 1);
-    due(x.status(7), 5000);
-    due(x.copy(0, 2, 0, 1, 1), 0);
-    due(x.status(0), 5);
   }
 
+  private static void copyFewer() {
+    says("16: one by one");
+    full();
+    // 50 come for 25, then 50 for 50, then 50 for none.
+    is(x.tear(1, 3, 500), 25);
+    due(x.copy(1, 3, 0, 1, 90), 7);
+    due(x.status(0), 5);
+    due(x.status(7), 5000);
+    // 40 and then 60 for 50 and 50 fit, 60 and then 40 do not.
+    full();
+    is(x.tear(0, 1, 800), 10);
+    for (int i = 0; i < 10; i++) yes(x.event(0, 2880, BERTHED));
+    is(x.tear(0, 3, 800), 10);
+    for (int i = 0; i < 10; i++) yes(x.event(1, 14400, BERTHED));
+    due(x.status(7), 5000);
+    due(x.copy(1, 0, 0, 2, 2), 0);
+    due(x.status(0), 5);
+    is(x.copy(1, 0, 0, 1, 2), 2);
+    due(x.status(7), 5000);
+  }
+
+  private static void copyBounds() {
+    says("16: Refused for DAYS d, e that there can't be in the LOGS (1).");
+    ship(5);
+    open(1, 0, 3);
+    for (int bad : new int[] {-1, 5, 89, 90, LEAST_INT, MOST_INT}) no(x.copy(0, bad, 1, 0, 1), 1);
+    for (int bad : new int[] {-1, 3, 89, 90, LEAST_INT, MOST_INT}) no(x.copy(0, 0, 1, bad, 1), 1);
+    no(x.copy(0, 5, 1, 0, 0), 1);
+    no(x.copy(0, 0, 1, 3, 0), 1);
+    is(x.copy(0, 4, 1, 2, 1), 1);
+    is(x.copy(0, 4, 1, 2, 0), 0);
+  }
+
+  // ---- 17 to 22
+
   private static void free() {
-    begin(17);
-    no(x.free(0, 0, true), 2);
-    no(x.free(0, 90, true), 1);
-    ship(2);
-    is(x.free(0, 1, true), false);
-    is(x.free(0, 1, true), true);
-    is(x.free(0, 0, false), false);
-    is(x.told(0, 0), 0);
-    is(x.free(0, 0, true), false);
-    is(x.told(0, 0), NONE);
-    is(x.free(0, 1, false), true);
-    is(x.told(0, 0), 1440);
-    is(x.free(0, 1, false), false);
-    no(x.free(0, 2, true), 1);
-    no(x.free(0, -1, true), 1);
-    no(x.free(1, 0, true), 2);
-    yes(x.day(0, 0, false));
-    no(x.free(0, 0, false), 2);
-    yes(x.day(0, 0, true));
+    says("17: DAY d is FREE, or not: whether it was.");
+    ship(90);
+    for (int d : new int[] {0, 1, 89}) {
+      is(x.free(0, d, false), false);
+      is(x.free(0, d, true), false);
+      is(x.free(0, d, true), true);
+    }
+    is(x.told(0, GOOD), 2880);
+    is(x.free(0, 2, false), false);
     is(x.free(0, 0, false), true);
+    is(x.free(0, 0, false), false);
+    is(x.told(0, GOOD), 0);
+    // It is FREE though its LOG is another.
+    yes(x.day(0, 1, false));
+    yes(x.day(0, 1, true));
+    is(x.free(0, 1, false), true);
+    is(x.free(0, 89, false), true);
   }
 
   private static void tons() {
-    begin(18);
-    no(x.tons(0, 0), 2);
-    no(x.tons(0, -1), 1);
+    says("18: TONS in thousandths, 0 .. 100000000. Refused (1) for others.");
     ship(1);
-    yes(x.tons(0, 100000000L));
-    no(x.tons(0, 100000001L), 1);
-    no(x.tons(0, -1), 1);
-    no(x.tons(0, Long.MAX_VALUE), 1);
-    no(x.tons(0, 1L << 32), 1);
-    no(x.tons(8, 1), 1);
-    is(x.weight(0, 0), 100000);
-    yes(x.tons(0, 0));
-    is(x.weight(0, 0), 0);
+    for (long fine : new long[] {100000000L, 1, 0, 99999999}) {
+      yes(x.tons(0, fine));
+      is(x.weight(0, 0) * 1000 + x.weight(0, 1), fine);
+    }
+    for (long bad : new long[] {-1, 100000001L, Long.MIN_VALUE, Long.MAX_VALUE, 1L << 32}) no(x.tons(0, bad), 1);
+    is(x.weight(0, 0), 99999);
+    is(x.weight(0, 1), 999);
   }
 
   private static void office() {
-    begin(19);
-    no(x.office(0, 0, 0, 0), 2);
-    no(x.office(0, 0, 0, 100001), 1);
+    says("19: OFFICE hours (0 .. 1440 both) and GRACE (0 .. 100000).");
     ship(90);
-    yes(x.office(0, 540, 1020, 100000));
-    is(x.told(0, 0), 540);
-    is(x.told(0, 1), 100540);
-    is(x.told(0, 2), 129600);
-    no(x.office(0, 1441, 0, 0), 1);
-    no(x.office(0, 0, 1441, 0), 1);
-    no(x.office(0, -1, 0, 0), 1);
-    no(x.office(0, 0, -1, 0), 1);
-    no(x.office(0, 0, 0, -1), 1);
-    no(x.office(0, 0, 0, 100001), 1);
-    is(x.told(0, 1), 100540);
-    yes(x.office(0, 600, 600, 0));
-    is(x.told(0, 0), NONE);
-    yes(x.office(0, 1440, 1440, 0));
-    is(x.told(0, 0), NONE);
-    yes(x.office(0, 1439, 1440, 1));
-    is(x.told(0, 0), 1439);
-    is(x.told(0, 1), 1440);
+    int[] from = {0, 1439, 540, 1};
+    int[] to = {1440, 1440, 1020, 2};
+    int[] grace = {100000, 0, 1, 99999};
+    for (int i = 0; i < 4; i++) {
+      yes(x.office(0, from[i], to[i], grace[i]));
+      is(x.told(0, GOOD), from[i]);
+      is(x.told(0, BEGIN), from[i] + grace[i]);
+    }
+    yes(x.office(0, 1440, 0, 0));
+    is(x.told(0, GOOD), NONE);
+    yes(x.office(0, 1, 2, 3));
+    says("19: Refused (1) for others.");
+    ship(90);
+    yes(x.office(0, 1, 2, 3));
+    for (int bad : new int[] {-1, 1441, LEAST_INT, MOST_INT}) {
+      no(x.office(0, bad, 1440, 0), 1);
+      no(x.office(0, 0, bad, 0), 1);
+    }
+    for (int bad : new int[] {-1, 100001, LEAST_INT, MOST_INT}) no(x.office(0, 0, 1440, bad), 1);
+    is(x.told(0, BEGIN), 4);
   }
 
   private static void offset() {
-    begin(20);
-    no(x.offset(0, 0), 2);
-    no(x.offset(0, -1), 1);
+    says("20: OFFSET (0 .. 1000000). Refused (1) for others.");
     ship(1);
-    allow(0, 0, 10);
-    is(x.sum(0, 2, LOW), 9);
-    yes(x.offset(0, 1000000));
-    is(x.sum(0, 2, LOW), 1000009);
-    no(x.offset(0, 1000001), 1);
-    no(x.offset(0, -1), 1);
-    no(x.offset(8, 0), 1);
-    is(x.sum(0, 2, LOW), 1000009);
-    is(x.why(0, 9, LOW), 0);
-    is(x.why(0, 10, LOW), -2);
+    allowAside(10);
+    for (int fine : new int[] {0, 1, 999999, 1000000}) {
+      yes(x.offset(0, fine));
+      is(x.sum(0, ONCE, LOW), fine + 9);
+    }
+    for (int bad : new int[] {-1, 1000001, LEAST_INT, MOST_INT}) no(x.offset(0, bad), 1);
+    is(x.sum(0, ONCE, LOW), 1000009);
+    // Its minutes are of the LOG all the same.
+    is(x.told(0, BEGIN), 0);
+    is(x.told(0, END), 1440);
+    is(x.counts(0, 0, 1440, LOW), 2880);
   }
 
   private static void rate() {
-    begin(21);
-    no(x.rate(0, 0, 0), 2);
-    no(x.rate(0, -1, 0), 1);
+    says("21: RATE and BACK (0 .. 1000000000 both). Refused (1) for others.");
     ship(1);
-    yes(x.rate(0, 1000000000L, 1000000000L));
-    is(x.sum(0, 5, LOW), 1000000000L);
-    no(x.rate(0, 1000000001L, 0), 1);
-    no(x.rate(0, 0, 1000000001L), 1);
-    no(x.rate(0, -1, 0), 1);
-    no(x.rate(0, 0, -1), 1);
-    no(x.rate(0, 1L << 40, 0), 1);
-    no(x.rate(-1, 0, 0), 1);
-    is(x.sum(0, 5, LOW), 1000000000L);
-    yes(x.rate(0, 0, 7));
-    is(x.sum(0, 5, LOW), 0);
+    for (long fine : new long[] {0, 1, 999999999, 1000000000}) {
+      yes(x.rate(0, fine, 1000000000 - fine));
+      is(x.sum(0, MONEY, LOW), fine);
+    }
+    for (long bad : new long[] {-1, 1000000001L, Long.MIN_VALUE, Long.MAX_VALUE, 1L << 32}) {
+      no(x.rate(0, bad, 0), 1);
+      no(x.rate(0, 0, bad), 1);
+    }
+    is(x.sum(0, MONEY, LOW), 1000000000);
+    allowAside(1440);
+    yes(x.event(0, 0, ENDED));
+    for (long fine : new long[] {0, 1, 999999999, 1000000000}) {
+      yes(x.rate(0, 1000000000 - fine, fine));
+      is(x.sum(0, MONEY, LOW), -fine);
+    }
   }
 
   private static void together() {
-    begin(22);
+    says("22: The PORTS of the set bits (bit 0: PORT 0) are one GROUP, each other open one its own.");
+    x.contract();
+    for (int p = 0; p < 8; p++) open(p, 0, 1);
+    for (int bits : new int[] {255, 0, 1, 128, 129, 6, 254, 85}) {
+      yes(x.together(bits));
+      int least = Integer.numberOfTrailingZeros(bits);
+      for (int p = 0; p < 8; p++) {
+        boolean in = (bits >> p & 1) == 1;
+        is(x.sum(p, LEAST, LOW), in ? least : p);
+        is(x.sum(p, COUNTING, LOW), in ? Integer.bitCount(bits) : 1);
+      }
+    }
+    says("22: Refused: bits that are not 0 .. 255 (1), one that is not open (2).");
     yes(x.together(0));
-    no(x.together(1), 2);
-    no(x.together(256), 1);
-    no(x.together(-1), 1);
+    for (int p = 0; p < 8; p++) no(x.together(1 << p), 2);
+    for (int bad : new int[] {-1, 256, 257, LEAST_INT, MOST_INT}) no(x.together(bad), 1);
     ship(1);
-    open(1, 0, 1);
     open(7, 0, 1);
-    no(x.together(4), 2);
-    no(x.together(1 + 4), 2);
-    yes(x.together(1 + 128));
-    is(x.sum(7, 7, LOW), 0);
-    is(x.sum(0, 8, LOW), 2);
-    is(x.sum(1, 8, LOW), 1);
+    yes(x.together(129));
+    no(x.together(130), 2);
+    no(x.together(1 + 64), 2);
     no(x.together(255), 2);
-    is(x.sum(7, 7, LOW), 0);
-    yes(x.together(2 + 128));
-    is(x.sum(7, 7, LOW), 1);
-    is(x.sum(0, 8, LOW), 1);
-    yes(x.together(1));
-    is(x.sum(7, 7, LOW), 7);
-    yes(x.together(131));
-    is(x.sum(1, 8, LOW), 3);
-    yes(x.together(0));
-    is(x.sum(1, 8, LOW), 1);
+    is(x.sum(7, LEAST, LOW), 0);
+    yes(x.close(0));
+    no(x.together(129), 2);
+    yes(x.together(128));
   }
 
-  /** Minutes of a GROUP stand in one row; of equal ones the least PORT is first. */
-  private static void oneSum() {
-    promise = 22;
-    ship(1);
-    allow(0, 0, 5);
-    x.contract();
-    allow(1, 0, 0);
-    open(1, 1, 1);
-    open(2, 1, 1);
-    yes(x.together(3));
-    // LIMIT 10: minutes 0 and 1 of both are 8; PORT 0's minute 2 comes to 10.
-    is(x.sum(1, 1, LOW), 10);
-    is(x.sum(1, 2, LOW), 2);
-    is(x.why(0, 2, LOW), 0);
-    is(x.why(0, 3, LOW), -2);
-    is(x.why(1, 1, LOW), 0);
-    is(x.why(1, 2, LOW), -2);
-    // PORT 1 later by two minutes: PORT 0 adds 2, 2, then both; 8 behind place 2, 10 with PORT 0's minute 3.
-    yes(x.offset(1, 2));
-    is(x.sum(0, 2, LOW), 3);
-    is(x.why(0, 3, LOW), 0);
-    is(x.why(1, 0, LOW), 0);
-    is(x.why(1, 1, LOW), -2);
-    // HALF in PORT 1: 2 4 6+1 8+.. : place 2 is 7, PORT 0's minute 3 comes to 9, PORT 1's minute 1 to 10.
-    yes(x.term(1, 1, HALF, 0, 0, 0));
-    is(x.sum(0, 2, LOW), 3);
-    is(x.why(0, 3, LOW), 0);
-    is(x.why(0, 4, LOW), -2);
-    is(x.why(1, 1, LOW), 1);
-    is(x.why(1, 2, LOW), -2);
-    // Far behind it adds nothing before.
-    yes(x.offset(1, 1000000));
-    is(x.sum(0, 2, LOW), 4);
-    is(x.why(1, 0, LOW), -2);
-    is(x.sum(0, 6, LOW), 2880);
-    is(x.sum(2, 2, LOW), -1);
-    is(x.sum(2, 3, LOW), 2880);
-    // What counts is where a minute stands, not which it is: PORT 1's first one is 40, at 45.
-    yes(x.office(1, 40, 1440, 0));
-    yes(x.offset(1, 5));
-    yes(x.amount(0, 0, 50));
-    is(x.sum(0, 2, LOW), 48);
-    is(x.why(1, 42, LOW), 1);
-    is(x.why(1, 43, LOW), -2);
-    yes(x.office(1, 0, 1440, 0));
-    yes(x.offset(1, 1000000));
-    // A gap between the ports: ONCE lies behind it.
-    yes(x.amount(0, 0, 1441));
-    yes(x.term(1, 1, ALLOW, 0, 0, 0));
-    is(x.sum(0, 2, LOW), 1000000);
-    yes(x.amount(0, 0, 1440));
-    is(x.sum(0, 2, LOW), 1439);
-  }
+  // ---- 23 to 31: what is told
 
   private static void told() {
-    begin(23);
-    no(x.told(0, 0), 2);
-    no(x.told(0, 8), 1);
+    says("23: What 0 GOOD, 1 BEGIN, 2 END, 3 ALLOWED, 4 days, 5 EVENTS, 6 UNKNOWN minutes of its LOG, 7 the CONTRACT");
+    ship(90);
+    x.contract();
+    allow(1, 0, 33);
+    yes(x.port(0, 1, 90));
+    yes(x.event(0, 50, ARRIVED));
+    yes(x.event(0, 60, NOTICE));
+    yes(x.event(0, 100, ENDED));
+    yes(x.office(0, 0, 1440, 10));
+    is(x.tear(0, 89, 1439), 0);
+    int[] want = {60, 70, 100, 33, 90, 3, 1, 1};
+    for (int what = 0; what < 8; what++) is(x.told(0, what), want[what]);
+    for (int d = 0; d < 90; d++) x.day(0, d, false);
+    is(x.told(0, UNKNOWN), 129600);
+    says("23: NONE where there is none (2 also if the PORT does not COUNT; not refused).");
     x.contract();
     yes(x.port(0, 0, 2));
     int[] bare = {NONE, NONE, NONE, 0, 2, 0, 0, 0};
     for (int what = 0; what < 8; what++) is(x.told(0, what), bare[what]);
-    no(x.told(0, 8), 1);
-    no(x.told(0, -1), 1);
-    no(x.told(8, 0), 1);
-    yes(x.event(0, 300, NOTICE));
-    is(x.told(0, 0), NONE);
-    yes(x.event(0, 900, ARRIVED));
-    is(x.told(0, 0), 900);
-    yes(x.event(0, 100, ARRIVED));
-    is(x.told(0, 0), 300);
+    yes(x.event(0, 0, ENDED));
+    is(x.told(0, END), NONE);
+    yes(x.event(0, 200, ARRIVED));
     yes(x.event(0, 200, NOTICE));
-    is(x.told(0, 0), 200);
-    // END is the first ended at or behind BEGIN.
-    yes(x.event(0, 199, ENDED));
-    is(x.told(0, 2), 2880);
-    yes(x.event(0, 1000, ENDED));
-    is(x.told(0, 2), 1000);
-    yes(x.event(0, 700, ENDED));
-    is(x.told(0, 2), 700);
-    yes(x.event(0, 200, ENDED));
-    is(x.told(0, 2), 200);
-    is(x.sum(0, 8, LOW), 1);
-    is(x.sum(0, 6, LOW), 0);
-    is(x.sum(0, 2, LOW), NONE);
-    // BEGIN is told though it lies behind the LOG; the PORT does not COUNT then.
     yes(x.office(0, 0, 1440, 2679));
-    is(x.told(0, 1), 2879);
-    is(x.told(0, 2), 2880);
-    is(x.sum(0, 8, LOW), 1);
+    is(x.told(0, BEGIN), 2879);
+    is(x.told(0, END), 2880);
     yes(x.office(0, 0, 1440, 2680));
-    is(x.told(0, 0), 200);
-    is(x.told(0, 1), 2880);
-    is(x.told(0, 2), NONE);
-    is(x.sum(0, 8, LOW), 0);
-    is(x.told(0, 5), 8);
-    is(x.told(0, 7), 0);
-  }
-
-  private static void allowed() {
-    promise = 23;
+    is(x.told(0, GOOD), 200);
+    is(x.told(0, BEGIN), 2880);
+    is(x.told(0, END), NONE);
+    says("23: Refused (1) for another what.");
     ship(1);
-    term(0, ALLOW, 1, 0, 0);
-    is(x.told(0, 3), 0);
-    yes(x.amount(0, 0, 70));
-    is(x.told(0, 3), 70);
-    term(1, ALLOW, 0, 0, 0);
-    yes(x.amount(0, 1, -7));
-    is(x.told(0, 3), 70);
-    yes(x.tons(0, 1000));
-    is(x.told(0, 3), 70 + 8);
-    term(2, ALLOW, 0, 0, 0);
-    yes(x.amount(0, 2, -9));
-    is(x.told(0, 3), 70 + 8 + 6);
-    yes(x.tons(0, 1166));
-    is(x.told(0, 3), 70 + 9 + 7);
-    term(3, EXCEPT, 0, 0, 0);
-    yes(x.amount(0, 3, 500));
-    is(x.told(0, 3), 70 + 9 + 7);
-    yes(x.tons(0, 100000000L));
-    for (int place = 0; place < 60; place++) {
-      x.term(0, place, ALLOW, 0, 0, 0);
-      x.amount(0, place, -1);
-    }
-    is(x.told(0, 3), 360000000);
-    is(x.sum(0, 1, LOW), 720000000L);
+    for (int bad : new int[] {-1, 8, LEAST_INT, MOST_INT}) no(x.told(0, bad), 1);
   }
 
   private static void weight() {
-    begin(24);
-    no(x.weight(0, 0), 2);
-    no(x.weight(0, 2), 1);
+    says("24: TONS: whole ones (0), thousandths beside (1).");
     ship(1);
-    yes(x.tons(0, 12345678));
-    is(x.weight(0, 0), 12345);
-    is(x.weight(0, 1), 678);
-    no(x.weight(0, 2), 1);
-    no(x.weight(0, -1), 1);
-    no(x.weight(-1, 0), 1);
+    int[] tons = {0, 1, 999, 1000, 1001, 12345678, 99999999, 100000000};
+    int[] whole = {0, 0, 0, 1, 1, 12345, 99999, 100000};
+    int[] beside = {0, 1, 999, 0, 1, 678, 999, 0};
+    for (int i = 0; i < tons.length; i++) {
+      yes(x.tons(0, tons[i]));
+      is(x.weight(0, 0), whole[i]);
+      is(x.weight(0, 1), beside[i]);
+    }
+    says("24: Refused (1) for another what.");
+    ship(1);
+    for (int bad : new int[] {-1, 2, LEAST_INT, MOST_INT}) no(x.weight(0, bad), 1);
   }
 
   private static void state() {
-    begin(25);
-    no(x.state(0, 0), 2);
-    no(x.state(0, 129600), 1);
-    ship(2);
-    open(1, 0, 1);
-    yes(x.event(0, 2000, SHIFTED));
-    yes(x.event(1, 5, RAIN));
-    int[] kinds = {BEGAN, RAIN, STOPPED, SHIFTED, BERTHED, ENDED, ARRIVED, NOTICE};
-    int[] states = {1, 2, 3, 4, 4, 4, 4, 4};
-    for (int i = 0; i < 8; i++) yes(x.event(0, 10 * i + 10, kinds[i]));
-    is(x.state(0, 9), 0);
-    for (int i = 0; i < 8; i++) {
-      is(x.state(0, 10 * i + 10), states[i]);
-      is(x.state(0, 10 * i + 19), states[i]);
-    }
-    is(x.state(1, 4), 0);
-    is(x.state(1, 5), 2);
-    no(x.state(0, 2880), 1);
-    no(x.state(0, -1), 1);
-    no(x.state(8, 0), 1);
-    no(x.state(2, 0), 2);
-    is(x.tear(0, 1, 0), 1);
+    says("25: The STATE of minute m. Refused (2) if it is UNKNOWN.");
+    ship(3);
+    yes(x.event(0, 1439, SHIFTED));
+    yes(x.day(0, 1, false));
+    is(x.tear(0, 2, 1), 0);
+    is(x.state(0, 1438), 0);
+    is(x.state(0, 1439), 4);
     no(x.state(0, 1440), 2);
+    no(x.state(0, 2879), 2);
+    is(x.state(0, 2880), 4);
+    no(x.state(0, 2881), 2);
+    no(x.state(0, 4319), 2);
+    // Also of minutes that are none of those that count.
+    yes(x.office(0, 0, 0, 0));
     is(x.state(0, 1439), 4);
   }
 
   private static void minute() {
-    begin(26);
-    no(x.minute(0, 0, LOW), 2);
-    no(x.minute(0, 129600, LOW), 1);
-    no(x.minute(0, -1, LOW), 1);
-    ship(1);
-    is(x.minute(0, 0, LOW), 2);
-    allow(0, 0, 1000);
-    term(1, HALF, 4, 10, 20);
-    term(2, EXCEPT, 4, 20, 30);
-    term(3, UNLESS, 4, 30, 60);
-    yes(x.event(0, 40, BEGAN));
-    yes(x.event(0, 50, RAIN));
-    int[] at = {0, 9, 10, 19, 20, 29, 30, 39, 40, 49, 50, 59, 60};
-    int[] want = {2, 2, 1, 1, 0, 0, 0, 0, 2, 2, 0, 0, 2};
-    for (int i = 0; i < at.length; i++) is(x.minute(0, at[i], i % 2 == 0), want[i]);
-    no(x.minute(0, 1440, LOW), 1);
-    yes(x.event(0, 500, ENDED));
-    is(x.minute(0, 499, LOW), 2);
-    is(x.minute(0, 500, LOW), NONE);
-    is(x.tear(0, 0, 300), 1);
-    is(x.minute(0, 299, LOW), 2);
-    is(x.minute(0, 300, LOW), 3);
-    is(x.minute(0, 300, HIGH), 3);
-    yes(x.office(0, 0, 1440, 400));
-    is(x.minute(0, 399, LOW), NONE);
-    is(x.minute(0, 400, LOW), 3);
+    says("26: Minute m: the HALVES that it adds, 3 if it is UNKNOWN");
+    ship(2);
+    allowAside(1000);
+    term(0, HALF, MINUTES, 10, 20);
+    term(1, EXCEPT, MINUTES, 20, 30);
+    int[] at = {0, 9, 10, 19, 20, 29, 30};
+    int[] want = {2, 2, 1, 1, 0, 0, 2};
+    is(x.tear(0, 1, 1400), 0);
+    for (boolean high : new boolean[] {LOW, HIGH}) {
+      for (int i = 0; i < at.length; i++) is(x.minute(0, at[i], high), want[i]);
+      is(x.minute(0, 2839, high), 2);
+      is(x.minute(0, 2840, high), 3);
+      is(x.minute(0, 2879, high), 3);
+    }
+    says("26: NONE (not refused) if it is none of its minutes.");
+    ship(2);
+    yes(x.office(0, 10, 1440, 5));
+    yes(x.event(0, 1440, ENDED));
+    is(x.tear(0, 1, 1), 0);
+    is(x.minute(0, 0, LOW), NONE);
+    is(x.minute(0, 14, LOW), NONE);
+    is(x.minute(0, 15, LOW), 2);
+    is(x.minute(0, 1439, LOW), 2);
+    is(x.minute(0, 1440, LOW), NONE);
+    // Though it be UNKNOWN.
+    is(x.minute(0, 1441, LOW), NONE);
+    is(x.minute(0, 2879, HIGH), NONE);
+    yes(x.office(0, 0, 0, 0));
+    is(x.minute(0, 15, LOW), NONE);
+    is(x.minute(0, 1441, LOW), NONE);
   }
 
   private static void why() {
-    begin(27);
-    no(x.why(0, 0, LOW), 2);
-    no(x.why(0, 129600, LOW), 1);
-    ship(1);
-    is(x.why(0, 0, LOW), -2);
-    allow(0, 59, 10);
-    is(x.why(0, 9, LOW), 59);
-    is(x.why(0, 10, LOW), -2);
-    term(7, ALWAYS, 1, 12, 14);
-    is(x.why(0, 9, LOW), 59);
-    is(x.why(0, 11, LOW), -2);
-    is(x.why(0, 12, LOW), 7);
-    is(x.why(0, 14, LOW), -2);
-    is(x.minute(0, 12, LOW), 2);
-    yes(x.amount(0, 7, 1));
-    is(x.minute(0, 12, LOW), 0);
-    yes(x.amount(0, 7, 2));
-    is(x.minute(0, 12, LOW), 0);
-    yes(x.event(0, 13, BEGAN));
-    is(x.minute(0, 12, LOW), 0);
-    is(x.minute(0, 13, LOW), 2);
-    yes(x.amount(0, 7, 3));
-    is(x.minute(0, 12, LOW), 2);
-    yes(x.amount(0, 7, -1));
-    is(x.minute(0, 12, LOW), 2);
-    // Of two that are OVER, both ALWAYS, the latest that does not yield.
-    term(8, ALWAYS, 0, 0, 0);
-    is(x.why(0, 12, LOW), 8);
-    x.yields(0, 8, 1 << ALLOW | 1 << HALF);
-    is(x.why(0, 12, LOW), 8);
-    x.yields(0, 8, 1 << ALWAYS);
-    is(x.why(0, 12, LOW), 7);
-    is(x.why(0, 14, LOW), 8);
-    no(x.why(0, 1440, LOW), 1);
-    no(x.why(8, 0, LOW), 1);
-    is(x.tear(0, 0, 5), 1);
-    is(x.why(0, 5, LOW), -3);
-    yes(x.office(0, 1, 1440, 0));
+    says("27: The PLACE of the TERM that tells minute m; -2 without one, -3 if it is UNKNOWN");
+    ship(2);
+    allowAside(100);
+    term(0, HALF, MINUTES, 10, 20);
+    term(57, EXCEPT, MINUTES, 20, 30);
+    term(58, ALWAYS, MINUTES, 200, 210);
+    is(x.tear(0, 1, 1400), 0);
+    int[] at = {0, 9, 10, 19, 20, 29, 30, 199, 200, 209, 210, 2839, 2840, 2879};
+    int[] want = {-2, -2, 0, 0, 57, 57, -2, -2, 58, 58, -2, -2, -3, -3};
+    for (int i = 0; i < at.length; i++) {
+      is(x.why(0, at[i], LOW), want[i]);
+      is(x.why(0, at[i], HIGH), want[i]);
+    }
+    says("27: NONE (not refused) if it is none of its minutes.");
+    ship(2);
+    yes(x.office(0, 10, 1440, 5));
+    yes(x.event(0, 1440, ENDED));
+    is(x.tear(0, 1, 1), 0);
     is(x.why(0, 0, LOW), NONE);
-    is(x.why(0, 1, LOW), 59);
+    is(x.why(0, 14, LOW), NONE);
+    is(x.why(0, 15, LOW), NEITHER);
+    is(x.why(0, 1439, LOW), NEITHER);
+    is(x.why(0, 1440, LOW), NONE);
+    is(x.why(0, 1441, HIGH), NONE);
+    yes(x.office(0, 0, 0, 0));
+    is(x.why(0, 15, LOW), NONE);
   }
 
   private static void counts() {
-    begin(28);
-    no(x.counts(0, 0, 0, LOW), 2);
-    no(x.counts(0, -1, 0, LOW), 1);
+    says("28: HALVES of its minutes from .. to - 1 (those that it has).");
     ship(2);
-    allow(0, 0, 5000);
-    term(1, HALF, 1, 0, 60);
-    is(x.counts(0, 0, 2880, LOW), 5760 - 120);
-    is(x.counts(0, 30, 90, LOW), 30 + 60);
-    is(x.counts(0, 59, 60, LOW), 1);
-    is(x.counts(0, 60, 60, LOW), 0);
-    is(x.counts(0, 90, 30, LOW), 0);
-    is(x.counts(0, 0, Integer.MAX_VALUE, LOW), 5640);
-    is(x.counts(0, Integer.MAX_VALUE, Integer.MAX_VALUE, LOW), 0);
-    is(x.counts(0, Integer.MAX_VALUE, 0, LOW), 0);
-    is(x.counts(0, 2879, 9999, LOW), 2);
-    no(x.counts(0, -1, 0, LOW), 1);
-    no(x.counts(0, 0, -1, LOW), 1);
-    no(x.counts(8, 0, 0, LOW), 1);
+    allowAside(5000);
+    term(0, HALF, HOURS, 0, 60);
+    yes(x.office(0, 10, 1440, 0));
+    yes(x.event(0, 2000, ENDED));
+    int[] from = {0, 0, 10, 11, 9, 59, 59, 60, 60, 61, 1999, 2000, 1999, 0, 1, MOST_INT, 0, 1440};
+    int[] to = {10, 11, 11, 11, 12, 60, 61, 60, 61, 60, 2000, 2001, 3000, MOST_INT, 0, MOST_INT, 2000, 1500};
+    int[] want = {0, 1, 1, 0, 2, 1, 3, 0, 2, 0, 2, 0, 2, 50 + 2760 + 60 + 1000, 0, 0, 3870, 60};
+    for (int i = 0; i < from.length; i++) is(x.counts(0, from[i], to[i], LOW), want[i]);
     is(x.tear(0, 0, 1430), 0);
-    is(x.counts(0, 1420, 1450, LOW), 20 + 0 + 10);
+    is(x.counts(0, 1420, 1450, LOW), 20 + 10);
     is(x.counts(0, 1420, 1450, HIGH), 20 + 20 + 10);
-    yes(x.event(0, 1429, ENDED));
-    is(x.counts(0, 1420, 1450, HIGH), 18);
     yes(x.office(0, 0, 0, 0));
-    is(x.counts(0, 0, 2880, HIGH), 0);
+    is(x.counts(0, 0, MOST_INT, HIGH), 0);
+    // Of the PORT's own, though by the sums of its GROUP.
+    ship(1);
+    open(1, 0, 1);
+    yes(x.together(3));
+    is(x.counts(1, 0, 1440, LOW), 2880);
+    says("28: Refused (1) for ints below 0.");
+    ship(1);
+    for (int bad : new int[] {-1, LEAST_INT}) {
+      no(x.counts(0, bad, 5, LOW), 1);
+      no(x.counts(0, 0, bad, LOW), 1);
+      no(x.counts(0, bad, bad, LOW), 1);
+    }
+    is(x.counts(0, 0, 0, LOW), 0);
   }
 
   private static void by() {
-    begin(29);
-    no(x.by(0, 0, LOW), 2);
-    no(x.by(0, 60, LOW), 1);
+    says("29: Of its minutes, how many are told by the TERM at a PLACE (or -2, -3 as why() tells).");
     ship(2);
-    is(x.by(0, -2, LOW), 2880);
-    allow(0, 0, 100);
-    term(59, EXCEPT, 1, 0, 60);
-    is(x.by(0, 59, LOW), 60);
-    is(x.by(0, 0, LOW), 100);
-    is(x.by(0, -2, LOW), 2720);
+    allowAside(100);
+    term(0, EXCEPT, HOURS, 0, 60);
+    term(58, ALWAYS, MINUTES, 200, 300);
+    is(x.tear(0, 1, 1400), 0);
+    int[] places = {0, 58, -2, -3, 1, 57, 59};
+    int[] want = {60, 100, 2880 - 60 - 100 - 40, 40, 0, 0, 0};
+    for (int i = 0; i < places.length; i++) {
+      is(x.by(0, places[i], LOW), want[i]);
+      is(x.by(0, places[i], HIGH), want[i]);
+    }
+    yes(x.office(0, 59, 1440, 0));
+    is(x.by(0, 0, LOW), 1);
+    yes(x.event(0, 250, ENDED));
+    is(x.by(0, 58, LOW), 50);
     is(x.by(0, -3, LOW), 0);
-    is(x.by(0, 1, LOW), 0);
-    no(x.by(0, -1, LOW), 1);
-    no(x.by(0, -4, LOW), 1);
-    no(x.by(0, 60, LOW), 1);
-    no(x.by(8, 0, LOW), 1);
-    is(x.tear(0, 0, 110), 0);
-    is(x.by(0, -3, HIGH), 1330);
-    is(x.by(0, 0, HIGH), 50);
-    is(x.by(0, -2, HIGH), 1440);
-    is(x.by(0, 59, HIGH), 60);
-    is(x.by(0, 59, LOW), 120);
-    is(x.by(0, 0, LOW), 100);
+    term(59, HALF, ALL, 0, 0);
+    is(x.by(0, 59, LOW), 0);
+    yes(x.amount(0, 58, 0));
+    allow(0, 1, 5000);
+    is(x.by(0, 59, LOW), 191);
+    for (int bad : new int[] {-1, -4, 60, LEAST_INT, MOST_INT}) no(x.by(0, bad, LOW), 1);
     yes(x.office(0, 0, 0, 0));
-    is(x.by(0, -3, HIGH), 0);
+    for (int place : places) is(x.by(0, place, HIGH), 0);
   }
 
   private static void sum() {
-    begin(30);
-    no(x.sum(0, 0, LOW), 2);
-    no(x.sum(0, 9, LOW), 1);
+    says("30: Of its GROUP, what 0 HALVES, 1 LIMIT, 2 ONCE, 3 OWED, 4 SAVED, 5 MONEY, 6 minutes, 7 the least PORT, 8 how many PORTS COUNT.");
     ship(1);
-    long[] bare = {2880, 0, -1, 2880, 0, 0, 1440, 0, 1};
-    for (int what = 0; what < 9; what++) is(x.sum(0, what, LOW), bare[what]);
-    no(x.sum(0, 9, LOW), 1);
-    no(x.sum(0, -1, LOW), 1);
-    no(x.sum(8, 0, LOW), 1);
-    // With LIMIT 0 ONCE is one less than where the first minute stands.
-    yes(x.office(0, 0, 1440, 40));
-    yes(x.offset(0, 500));
-    is(x.sum(0, 2, LOW), 539);
-    yes(x.offset(0, 0));
-    yes(x.office(0, 0, 1440, 0));
-    // LIMIT odd to a HALF: the minute that comes to it or beyond.
-    allow(0, 0, 3);
-    is(x.sum(0, 2, LOW), 2);
-    term(1, HALF, 4, 0, 1);
-    is(x.sum(0, 2, LOW), 3);
-    is(x.sum(0, 0, LOW), 2879);
-    is(x.sum(0, 3, LOW), 2873);
-    // SAVED wants an ended at END of each PORT that COUNTS.
-    yes(x.amount(0, 0, 2000));
-    is(x.sum(0, 3, LOW), 0);
-    is(x.sum(0, 4, LOW), 0);
-    yes(x.event(0, 1000, ENDED));
-    is(x.sum(0, 0, LOW), 1999);
-    is(x.sum(0, 4, LOW), 2001);
-    is(x.sum(0, 2, LOW), NONE);
-    yes(x.rate(0, 999, 5760));
-    is(x.sum(0, 5, LOW), -4002);
-    yes(x.rate(0, 999, 5761));
-    is(x.sum(0, 5, LOW), -4002);
-    open(1, 0, 1);
-    yes(x.together(3));
-    is(x.sum(1, 1, LOW), 8000);
-    is(x.sum(1, 4, LOW), 0);
-    yes(x.event(1, 0, ENDED));
-    is(x.sum(1, 8, LOW), 2);
-    is(x.sum(1, 6, LOW), 1000);
-    is(x.sum(1, 4, LOW), 6001);
-    // One that does not COUNT adds no LIMIT and wants no ended.
-    yes(x.close(1));
-    yes(x.port(1, 0, 1));
-    yes(x.together(3));
-    is(x.sum(1, 1, LOW), 4000);
-    is(x.sum(1, 4, LOW), 2001);
-    is(x.sum(1, 8, LOW), 1);
-    // RATE and BACK of the least PORT, though it may be one that does not COUNT.
-    yes(x.rate(1, 1, 1));
-    is(x.sum(1, 5, LOW), -4002);
-    // None COUNTS: nothing saved.
-    yes(x.office(0, 0, 0, 0));
-    is(x.sum(0, 4, LOW), 0);
-    is(x.sum(0, 1, LOW), 0);
-    is(x.sum(0, 2, LOW), NONE);
-    is(x.sum(0, 8, LOW), 0);
-  }
-
-  private static void money() {
-    promise = 30;
+    allowAside(100);
+    yes(x.rate(0, 5760, 5760));
+    long[] owes = {2880, 200, 99, 2680, 0, 5360, 1440, 0, 1};
+    for (int what = 0; what < 9; what++) is(x.sum(0, what, LOW), owes[what]);
+    open(2, 0, 1);
+    open(5, 0, 1);
+    yes(x.office(5, 0, 0, 0));
+    yes(x.together(1 + 4 + 32));
+    yes(x.event(0, 30, ENDED));
+    yes(x.event(2, 50, ENDED));
+    long[] saves = {160, 400, NONE, 0, 240, -480, 80, 0, 2};
+    for (int p : new int[] {0, 2, 5}) for (int what = 0; what < 9; what++) is(x.sum(p, what, LOW), saves[what]);
+    yes(x.together(4 + 32));
+    is(x.sum(5, LEAST, LOW), 2);
+    is(x.sum(0, LEAST, LOW), 0);
+    yes(x.together(0));
+    long[] none = {0, 0, NONE, 0, 0, 0, 0, 5, 0};
+    for (int what = 0; what < 9; what++) is(x.sum(5, what, HIGH), none[what]);
+    says("30: Refused (1) for another what.");
     ship(1);
-    allow(0, 0, 1);
-    yes(x.rate(0, 1, 0));
-    is(x.sum(0, 3, LOW), 2878);
-    is(x.sum(0, 5, LOW), 0);
-    yes(x.rate(0, 2, 0));
-    is(x.sum(0, 5, LOW), 1);
-    // The greatest that can be saved fits: 8 PORTS, 60 ALLOWS of 6000000 minutes each.
-    for (int place = 0; place < 60; place++) {
-      x.term(0, place, ALLOW, 0, 0, 0);
-      x.amount(0, place, -1);
-    }
-    for (int p = 0; p < 8; p++) {
-      open(p, 0, 1);
-      yes(x.tons(p, 100000000L));
-      yes(x.event(p, 0, ENDED));
-    }
-    yes(x.rate(0, 1000000000L, 1000000000L));
-    yes(x.together(255));
-    is(x.sum(7, 4, LOW), 5760000000L);
-    is(x.sum(7, 5, LOW), -2000000000000000L);
-  }
-
-  /** Behind LIMIT, ALWAYS alone decides; LOW and HIGH each by their own sums. */
-  private static void gaps() {
-    promise = 30;
-    ship(3);
-    allow(0, 0, 100);
-    term(1, EXCEPT, 1, 0, 60);
-    yes(x.day(0, 1, false));
-    is(x.tear(0, 0, 120), 0);
-    is(x.sum(0, 2, LOW), 2880 + 60 + 39);
-    is(x.sum(0, 2, HIGH), 159);
-    is(x.sum(0, 0, LOW), 120 + 2 * (1440 - 60));
-    is(x.sum(0, 0, HIGH), 120 + 2 * 1320 + 2880 + 2880);
-    is(x.sum(0, 6, HIGH), 4320);
-    is(x.why(0, 2880, LOW), 1);
-    is(x.why(0, 2880, HIGH), -2);
+    for (int bad : new int[] {-1, 9, LEAST_INT, MOST_INT}) no(x.sum(0, bad, LOW), 1);
   }
 
   private static void asIf() {
-    begin(31);
-    no(x.as(0, 0, 0, LOW), 2);
-    no(x.as(0, 60, 0, LOW), 1);
-    no(x.as(0, 0, 60, LOW), 1);
+    says("31: As sum(), as if the PLACE held what PLACE to of it holds: OWED less SAVED.");
     ship(1);
     allow(0, 0, 100);
-    term(1, EXCEPT, 1, 0, 60);
-    allow(0, 2, 30);
-    x.yields(0, 2, 1 << EXCEPT);
+    term(1, EXCEPT, HOURS, 0, 60);
+    allow(0, 59, 30);
+    x.yields(0, 59, 1 << EXCEPT);
     yes(x.heading(0, 3, 4));
-    is(x.sum(0, 3, LOW), 2 * (1440 - 60 - 130));
-    is(x.as(0, 1, NONE, LOW), 2 * (1440 - 130));
-    is(x.as(0, 1, 3, LOW), 2 * (1440 - 130));
-    is(x.as(0, 1, 59, LOW), 2 * (1440 - 130));
+    is(x.sum(0, OWED, LOW), 2 * (1440 - 60 - 130));
     is(x.as(0, 1, 1, LOW), 2 * (1440 - 60 - 130));
-    is(x.as(0, 2, 2, LOW), 2 * (1440 - 60 - 130));
-    is(x.as(0, 2, 0, LOW), 2 * (1440 - 200));
+    is(x.as(0, 59, 59, LOW), 2 * (1440 - 60 - 130));
+    is(x.as(0, 59, 0, LOW), 2 * (1440 - 200));
+    is(x.as(0, 0, 59, HIGH), 2 * (1440 - 60 - 60));
     is(x.as(0, 3, 1, LOW), 2 * (1440 - 60 - 130));
-    is(x.as(0, 0, NONE, HIGH), 2 * (1440 - 60 - 30));
-    is(x.as(0, 0, 2, HIGH), 2 * (1440 - 60 - 60));
-    // Nothing changes.
-    is(x.sum(0, 3, LOW), 2 * (1440 - 60 - 130));
-    is(x.span(0, 2, 3), 1 << EXCEPT);
-    is(x.span(0, 0, 4), 100);
-    is(x.span(0, 1, 2), 60);
-    is(x.headed(0, 3), 4);
-    is(x.kind(0, 59), 6);
-    no(x.as(0, 60, 0, LOW), 1);
-    no(x.as(0, -1, 0, LOW), 1);
-    no(x.as(0, 0, 60, LOW), 1);
-    no(x.as(0, 0, -2, LOW), 1);
-    no(x.as(8, 0, 0, LOW), 1);
-    no(x.as(1, 0, 0, LOW), 2);
-    // SAVED is below nothing; and the CONTRACT is the PORT's wherever the GROUP has it.
+    is(x.as(0, 3, 0, LOW), 2 * (1440 - 230));
+    // To a HEADING, to a PLACE that holds nothing.
+    is(x.as(0, 1, 3, LOW), 2 * (1440 - 130));
+    is(x.as(0, 1, 58, LOW), 2 * (1440 - 130));
     yes(x.event(0, 10, ENDED));
-    is(x.as(0, 1, NONE, LOW), 20 - 260);
+    is(x.as(0, 1, 1, LOW), 0 - 260);
+    is(x.as(0, 59, 1, LOW), 0 - 200);
+    // All of it: its SPAN, too.
+    ship(1);
+    allow(0, 0, 1440);
+    term(1, EXCEPT, HOURS, 0, 60);
+    term(2, EXCEPT, MINUTES, 100, 250);
+    yes(x.event(0, 1000, ENDED));
+    is(x.sum(0, SAVED, LOW), 2880 - 2 * (1000 - 210));
+    is(x.as(0, 1, 2, LOW), 2 * (1000 - 150) - 2880);
+    is(x.as(0, 2, 1, LOW), 2 * (1000 - 60) - 2880);
+    is(x.as(0, 3, 2, LOW), 2 * (1000 - 210) - 2880);
+    is(x.as(0, 0, 1, LOW), 2 * 1000);
+    says("31: or nothing (to NONE)");
+    ship(1);
+    allow(0, 0, 100);
+    term(59, EXCEPT, HOURS, 0, 60);
+    is(x.as(0, 59, NONE, LOW), 2 * (1440 - 100));
+    is(x.as(0, 0, NONE, HIGH), 2880);
+    is(x.as(0, 58, NONE, LOW), 2 * (1440 - 160));
+    yes(x.event(0, 10, ENDED));
+    is(x.as(0, 59, NONE, LOW), 20 - 200);
+    is(x.as(0, 0, NONE, LOW), 20);
+    for (int bad : new int[] {-2, 60, LEAST_INT, MOST_INT}) no(x.as(0, 0, bad, LOW), 1);
+    for (int bad : new int[] {-1, 60, LEAST_INT, MOST_INT}) no(x.as(0, bad, 0, LOW), 1);
+  }
+
+  private static void asOfGroup() {
+    says("31: the PLACE of the PORT's CONTRACT (wherever that is one of the GROUP's)");
+    ship(1);
+    allow(0, 0, 100);
+    allow(0, 1, 20);
     x.contract();
     allow(1, 0, 7);
     open(1, 0, 1);
     open(2, 1, 1);
-    yes(x.event(1, 10, ENDED));
-    yes(x.event(2, 10, ENDED));
+    for (int p = 0; p < 3; p++) yes(x.event(p, 10, ENDED));
     yes(x.together(7));
-    is(x.as(1, 0, NONE, LOW), 20 - 60 - 60 - 14);
-    is(x.as(2, 0, NONE, LOW), 20 - 260 - 260);
+    is(x.sum(1, SAVED, LOW), 2 * 247 - 60);
+    is(x.as(1, 0, NONE, LOW), 60 - 2 * 47);
+    is(x.as(0, 0, 1, LOW), 60 - 2 * 87);
+    is(x.as(2, 0, NONE, LOW), 60 - 2 * 240);
+    is(x.as(2, 0, 1, LOW), 60 - 2 * 240);
+    yes(x.together(6));
+    is(x.as(1, 0, NONE, LOW), 40 - 2 * 27);
+    says("31: Nothing changes.");
+    ship(1);
+    allow(0, 0, 100);
+    x.yields(0, 0, 9);
+    term(1, EXCEPT, HOURS, 5, 60);
+    yes(x.heading(0, 2, 4));
+    int[][] was = new int[3][5];
+    for (int round = 0; round < 2; round++) {
+      for (int place = 0; place < 2; place++) {
+        for (int what = 0; what < 5; what++) {
+          if (round == 0) was[place][what] = x.span(0, place, what);
+          is(x.span(0, place, what), was[place][what]);
+        }
+        is(x.kind(0, place), place == 0 ? ALLOW : EXCEPT);
+      }
+      is(x.headed(0, 2), 4);
+      is(x.kind(0, 3), 6);
+      for (int place = 0; place < 4; place++) for (int to = NONE; to < 4; to++) x.as(0, place, to, LOW);
+    }
+    // Nor in the last PLACES of the last CONTRACT.
+    for (int c = 1; c < 40; c++) is(x.contract(), c);
+    yes(x.heading(39, 59, 1));
+    yes(x.heading(39, 58, 2));
+    is(x.as(0, 0, 1, LOW), 2880);
+    open(1, 39, 1);
+    is(x.as(1, 59, 57, LOW), 2880);
+    is(x.headed(39, 59), 1);
+    is(x.headed(39, 58), 2);
+    is(x.kind(39, 57), 6);
   }
 
+  // ---- 32 to 34: claims
+
   private static void claim() {
-    begin(32);
-    no(x.claim(0), 2);
-    no(x.claim(8), 1);
-    no(x.claim(-1), 1);
+    says("32: A claim for a PORT begins, of no minute.");
     ship(1);
+    due(x.check(0, LOW), -4);
     yes(x.claim(0));
     due(x.status(8), 0);
-    due(x.check(0, LOW), 0);
-    is(x.tell(1, 0), 1);
-    no(x.claim(1), 2);
-    due(x.status(8), 1);
+    is(x.check(0, LOW), 0);
+    is(x.tell(1440, -2), 1);
+    is(x.check(2880, LOW), NONE);
+    // Another one: that of before is gone.
     yes(x.claim(0));
     due(x.status(8), 0);
+    is(x.check(2880, LOW), 0);
+    open(1, 0, 1);
+    yes(x.office(1, 100, 1440, 0));
+    is(x.tell(1, -2), 1);
+    yes(x.claim(1));
+    due(x.status(8), 0);
+    is(x.check(0, LOW), 100);
+    no(x.claim(2), 2);
+    is(x.tell(1, -2), 1);
+    is(x.check(0, LOW), 101);
   }
 
   private static void tell() {
-    begin(33);
+    says("33: The claim tells its next n minutes (1 .. 129600) by why (a PLACE, -2, -3): how many rows it has.");
+    ship(1);
+    yes(x.claim(0));
+    int[] n = {1, 129600, 2, 129599, 1};
+    int[] why = {0, 59, -2, -3, -2};
+    for (int i = 0; i < 5; i++) {
+      is(x.tell(n[i], why[i]), i + 1);
+      due(x.status(8), i + 1);
+    }
+    open(1, 0, 90);
+    yes(x.claim(1));
+    is(x.tell(129600, -2), 1);
+    is(x.check(259200, LOW), NONE);
+    says("33: Refused: other numbers (1), no claim (2)");
     no(x.tell(1, 0), 2);
-    no(x.tell(0, 0), 1);
-    no(x.tell(1, -1), 1);
     ship(1);
+    no(x.tell(1, 0), 2);
     yes(x.claim(0));
-    no(x.tell(0, 0), 1);
-    no(x.tell(-1, 0), 1);
-    no(x.tell(129601, 0), 1);
-    no(x.tell(1, -1), 1);
-    no(x.tell(1, -4), 1);
-    no(x.tell(1, 60), 1);
+    for (int bad : new int[] {0, -1, 129601, LEAST_INT, MOST_INT}) no(x.tell(bad, 0), 1);
+    for (int bad : new int[] {-1, -4, 60, LEAST_INT, MOST_INT}) no(x.tell(1, bad), 1);
     due(x.status(8), 0);
-    int[] whys = {0, 59, -2, -3};
-    for (int i = 0; i < 4; i++) is(x.tell(129600, whys[i]), i + 1);
+    is(x.tell(1, 0), 1);
+    says("33: Refused: 500 rows (5).");
     ship(1);
     yes(x.claim(0));
-    for (int i = 1; i <= 485; i++) due(x.tell(1, -2), i);
-    yes(x.image());
-    for (int i = 486; i <= 500; i++) due(x.tell(2, -2), i);
+    for (int i = 1; i <= 499; i++) due(x.tell(1, -2), i);
+    is(x.tell(2, -2), 500);
     no(x.tell(1, -2), 5);
-    no(x.tell(1, -1), 1);
     due(x.status(8), 500);
-    due(x.check(0, LOW), 485 + 30);
+    due(x.check(0, LOW), 501);
   }
 
-  private static void check() {
-    begin(34);
-    due(x.check(0, LOW), -4);
-    due(x.status(0), 2);
+  /** PORT 0 with minutes 0 .. 59 told by PLACE 1, then 100 by PLACE 0, 1290 by none, and 1430 that are UNKNOWN. */
+  private static void claimed() {
     ship(2);
-    due(x.check(0, LOW), -4);
     allow(0, 0, 100);
-    term(1, EXCEPT, 1, 0, 60);
+    term(1, EXCEPT, HOURS, 0, 60);
     is(x.tear(0, 1, 10), 0);
-    yes(x.event(0, 30, BEGAN));
     yes(x.claim(0));
-    is(x.check(0, LOW), 0);
+  }
+  private static final int LOW_HALVES = 2 * (100 + 1290), HIGH_HALVES = LOW_HALVES + 2 * 1430;
+
+  private static void tellAll() {
     is(x.tell(50, 1), 1);
-    is(x.check(0, LOW), 50);
     is(x.tell(10, 1), 2);
     is(x.tell(100, 0), 3);
-    is(x.tell(1280, -2), 4);
-    is(x.tell(9, -2), 5);
-    is(x.check(0, LOW), 1449);
-    is(x.tell(1, -2), 6);
-    is(x.tell(1429, -3), 7);
-    is(x.check(0, LOW), 2879);
-    is(x.tell(1, -3), 8);
-    int low = 200 + 2560 + 20;
-    is(x.check(low, LOW), NONE);
-    is(x.check(low + 1, LOW), -2);
-    is(x.check(-1, LOW), -2);
-    is(x.check(low, HIGH), -2);
-    is(x.check(low + 2 * 1430, HIGH), NONE);
-    // More are told than there are: END.
-    is(x.tell(1, -2), 9);
-    is(x.check(low, LOW), 2880);
-    // An earlier mistake comes first.
-    term(1, EXCEPT, 1, 0, 55);
-    is(x.check(low, LOW), 55);
-    term(1, EXCEPT, 1, 0, 60);
-    yes(x.event(0, 1000, ENDED));
-    is(x.check(0, LOW), 1000);
-    // Its own minutes alone, by the sums of the GROUP.
+    is(x.tell(1290, -2), 4);
+    is(x.tell(1430, -3), 5);
+  }
+
+  private static void checkRight() {
+    says("34: NONE if each why is right, and there are just as many, and the HALVES of them are so many");
+    claimed();
+    // LOW tells the first ten minutes of DAY 1 by the EXCEPT no more: LIMIT is come to.
+    tellAll();
+    is(x.check(LOW_HALVES, LOW), NONE);
+    is(x.check(HIGH_HALVES, HIGH), NONE);
+    claimed();
+    tellAll();
+    is(x.check(LOW_HALVES, LOW), NONE);
+    says("34: else -2: the HALVES.");
+    claimed();
+    tellAll();
+    for (int other : new int[] {LOW_HALVES - 1, LOW_HALVES + 1, 0, -1, HIGH_HALVES, LEAST_INT, MOST_INT}) is(x.check(other, LOW), -2);
+    is(x.check(LOW_HALVES, HIGH), -2);
+  }
+
+  private static void checkWrong() {
+    says("34: else the first minute of the LOG that is told otherwise");
+    claimed();
+    is(x.tell(1, 0), 1);
+    is(x.check(0, LOW), 0);
+    claimed();
+    is(x.tell(61, 1), 1);
+    is(x.check(0, LOW), 60);
+    claimed();
+    is(x.tell(59, 1), 1);
+    is(x.tell(1, 0), 2);
+    is(x.check(0, LOW), 59);
+    claimed();
+    is(x.tell(60, 1), 1);
+    is(x.tell(100, 0), 2);
+    is(x.tell(1291, -2), 3);
+    is(x.check(LOW_HALVES, LOW), 1450);
+    // Of the LOG: its minutes may begin later.
+    yes(x.office(0, 30, 1440, 10));
+    yes(x.claim(0));
+    is(x.tell(20, 1), 1);
+    is(x.tell(1, 1), 2);
+    is(x.check(0, LOW), 60);
+    says("34: or is told by no row");
+    claimed();
+    is(x.check(0, LOW), 0);
+    is(x.tell(1, 1), 1);
+    is(x.check(0, LOW), 1);
+    is(x.tell(59, 1), 2);
+    is(x.check(0, LOW), 60);
+    is(x.tell(100, 0), 3);
+    is(x.tell(1290, -2), 4);
+    is(x.tell(1429, -3), 5);
+    is(x.check(LOW_HALVES, LOW), 2879);
+    is(x.tell(1, -3), 6);
+    is(x.check(LOW_HALVES, LOW), NONE);
+    yes(x.office(0, 30, 1440, 10));
+    yes(x.claim(0));
+    is(x.check(0, LOW), 40);
+  }
+
+  private static void checkMore() {
+    says("34: or END, if more are told");
+    claimed();
+    tellAll();
+    is(x.tell(1, -3), 6);
+    is(x.check(LOW_HALVES, LOW), 2880);
+    claimed();
+    is(x.tell(60, 1), 1);
+    is(x.tell(100, 0), 2);
+    is(x.tell(1290, -2), 3);
+    is(x.tell(1431, -3), 4);
+    is(x.check(LOW_HALVES, LOW), 2880);
+    yes(x.event(0, 160, ENDED));
+    is(x.check(200, LOW), 160);
+    yes(x.claim(0));
+    is(x.tell(60, 1), 1);
+    is(x.tell(100, 0), 2);
+    is(x.check(200, LOW), NONE);
+    is(x.tell(129600, 0), 3);
+    is(x.check(200, LOW), 160);
+    // END is BEGIN: no minute, and one is told.
+    yes(x.event(0, 0, ENDED));
+    yes(x.claim(0));
+    is(x.check(0, LOW), NONE);
+    is(x.check(1, LOW), -2);
+    is(x.tell(1, 0), 1);
+    is(x.check(0, LOW), 0);
+    yes(x.office(0, 0, 1440, 160));
+    is(x.check(0, LOW), 160);
+    says("34: A PORT that does not COUNT has no minute, and END 0.");
+    claimed();
+    yes(x.office(0, 0, 1440, 2880));
+    is(x.check(0, LOW), NONE);
+    is(x.check(1, LOW), -2);
+    is(x.tell(1, -2), 1);
+    is(x.check(0, LOW), 0);
+    yes(x.office(0, 0, 0, 0));
+    is(x.check(0, LOW), 0);
+    yes(x.claim(0));
+    is(x.check(0, LOW), NONE);
+  }
+
+  private static void checkOfGroup() {
+    says("34: The claim against the PORT's minutes, in order");
+    claimed();
     open(1, 0, 1);
     yes(x.together(3));
     yes(x.amount(0, 0, 0));
     yes(x.claim(1));
     is(x.tell(1440, -2), 1);
     is(x.check(2880, LOW), NONE);
-    // A PORT that does not COUNT: END is 0.
-    yes(x.office(1, 0, 0, 0));
-    is(x.check(0, LOW), 0);
+    // By the sums of its GROUP, LIMIT 4: one minute of each PORT behind 0 .. 59 that do not count.
+    yes(x.amount(0, 0, 1));
     yes(x.claim(1));
-    is(x.check(0, LOW), NONE);
-    is(x.check(1, LOW), -2);
-    yes(x.close(1));
+    is(x.tell(60, 1), 1);
+    is(x.tell(1, 0), 2);
+    is(x.tell(1379, -2), 3);
+    is(x.check(2760, LOW), NONE);
+    yes(x.together(0));
+    is(x.check(2760, LOW), NONE);
+    yes(x.amount(0, 0, 2));
+    is(x.check(2760, LOW), 61);
+    yes(x.offset(0, 1000));
+    yes(x.together(3));
+    is(x.check(2760, LOW), 61);
+    says("34: Refused (2), answering -4, without a claim, or if its PORT is no more open.");
     due(x.check(0, LOW), -4);
     due(x.status(0), 2);
-    open(1, 0, 1);
+    claimed();
     is(x.check(0, LOW), 0);
-    // END where BEGIN is: more are told than none.
-    yes(x.office(1, 0, 1440, 20));
-    yes(x.event(1, 20, ENDED));
-    is(x.check(0, LOW), NONE);
-    is(x.tell(1, 0), 1);
-    is(x.check(0, LOW), 20);
+    open(1, 0, 1);
+    yes(x.close(1));
+    is(x.check(0, LOW), 0);
+    yes(x.close(0));
+    due(x.check(0, LOW), -4);
+    due(x.status(0), 2);
+    due(x.status(2), 1);
+    due(x.check(0, HIGH), -4);
+    due(x.status(2), 2);
+    open(0, 0, 1);
+    is(x.check(0, LOW), 0);
   }
 
+  // ---- 35 to 37
+
   private static void image() {
-    begin(35);
+    says("35: All is kept as it is (one image): true.");
     yes(x.image());
     x.contract();
     yes(x.back());
@@ -1345,17 +1326,73 @@ public final class PromiseTest {
     yes(x.image());
     yes(x.amount(0, 0, 30));
     yes(x.back());
-    is(x.told(0, 3), 20);
+    is(x.told(0, ALLOWED), 20);
+    yes(x.back());
+    is(x.told(0, ALLOWED), 20);
+    says("35: the claim, too");
+    ship(1);
+    yes(x.image());
+    yes(x.claim(0));
+    is(x.tell(7, -2), 1);
+    yes(x.back());
+    due(x.check(0, LOW), -4);
+    no(x.tell(1, 0), 2);
+    due(x.status(8), 0);
+    yes(x.claim(0));
+    is(x.tell(7, -2), 1);
+    yes(x.image());
+    is(x.tell(7, -3), 2);
+    open(1, 0, 1);
+    yes(x.claim(1));
+    yes(x.back());
+    due(x.status(8), 1);
+    is(x.check(0, LOW), 7);
+    yes(x.close(0));
+    yes(x.back());
+    is(x.check(0, LOW), 7);
+    says("35: not status()");
+    no(x.kind(0, 0), 2);
+    yes(x.image());
+    no(x.kind(0, 60), 1);
+    no(x.kind(0, 0), 2);
+    yes(x.back());
+    due(x.status(0), 0);
+    due(x.status(1), 1);
+    due(x.status(2), 2);
+  }
+
+  private static long[] look() {
+    long[] all = new long[72];
+    int n = 0;
+    for (int p = 0; p < 2; p++) for (int what = 0; what < 8; what++) all[n++] = x.told(p, what);
+    for (int p = 0; p < 2; p++) for (int what = 0; what < 9; what++) all[n++] = x.sum(p, what, HIGH);
+    all[n++] = x.sum(2, MONEY, LOW);
+    for (int what = 0; what < 5; what++) all[n++] = x.span(0, 0, what);
+    for (int place = 0; place < 3; place++) all[n++] = x.kind(0, place);
+    all[n++] = x.headed(0, 1);
+    all[n++] = x.weight(0, 0);
+    all[n++] = x.weight(0, 1);
+    all[n++] = x.check(0, LOW);
+    for (int what = 6; what <= 8; what++) all[n++] = x.status(what);
+    all[n++] = x.state(0, 9);
+    all[n++] = x.why(0, 9, LOW);
+    all[n++] = x.as(0, 0, NONE, LOW);
+    all[n++] = x.by(0, GAP, LOW);
+    all[n++] = x.counts(1, 0, 700, LOW);
+    return Arrays.copyOf(all, n);
   }
 
   private static void back() {
-    begin(36);
-    no(x.back(), 2);
+    says("36: All is as it was at the latest image() (which stays): true.");
     ship(3);
-    allow(0, 0, 10);
+    term(0, ALLOW, HOURS, 0, 1440);
+    yes(x.amount(0, 0, 10));
     x.yields(0, 0, 3);
     yes(x.heading(0, 1, 44));
     open(1, 0, 1);
+    open(2, 0, 1);
+    yes(x.event(2, 0, ENDED));
+    yes(x.rate(2, 1, 5000));
     yes(x.together(3));
     yes(x.tons(0, 5005));
     yes(x.office(0, 3, 1400, 5));
@@ -1366,124 +1403,117 @@ public final class PromiseTest {
     is(x.free(0, 2, true), false);
     yes(x.event(0, 9, BEGAN));
     yes(x.claim(0));
-    is(x.tell(4, 0), 1);
+    is(x.tell(2, 0), 1);
+    is(x.check(0, LOW), 10);
     long[] was = look();
     yes(x.image());
     for (int round = 0; round < 2; round++) {
       x.contract();
       yes(x.heading(0, 0, 1));
-      term(1, EXCEPT, 0, 0, 0);
+      term(1, EXCEPT, ALL, 0, 0);
+      term(2, EXCEPT, ALL, 0, 0);
       yes(x.together(0));
       yes(x.day(0, 1, true));
+      is(x.free(0, 2, false), true);
+      yes(x.tons(0, 1));
+      yes(x.office(0, 0, 0, 0));
+      yes(x.offset(0, 0));
+      yes(x.rate(0, 0, 0));
+      yes(x.rate(2, 0, 0));
       yes(x.event(0, 1440, RAIN));
       yes(x.event(1, 3, RAIN));
-      yes(x.port(0, 0, 2));
-      yes(x.claim(1));
+      if (round == 1) yes(x.port(0, 1, 2));
+      if (round == 1) yes(x.close(1));
+      yes(x.claim(0));
       is(x.tell(9, -3), 1);
       is(x.tell(9, -3), 2);
-      yes(x.close(1));
-      no(x.told(9, 0), 1);
-      due(x.status(1), round + 1);
       yes(x.back());
-      // Not status(): what was refused stays so.
-      due(x.status(1), round + 1);
       long[] now = look();
       for (int i = 0; i < was.length; i++) due(now[i], was[i]);
-      due(x.state(0, 9), 1);
     }
-  }
-  private static long[] look() {
-    long[] all = new long[40];
-    for (int i = 0; i < 8; i++) all[i] = x.told(0, i);
-    for (int i = 0; i < 9; i++) all[8 + i] = x.sum(1, i, HIGH);
-    for (int i = 0; i < 5; i++) all[17 + i] = x.span(0, 0, i);
-    all[22] = x.headed(0, 1);
-    all[23] = x.weight(0, 0);
-    all[24] = x.weight(0, 1);
-    all[25] = x.check(0, LOW);
-    for (int i = 6; i <= 8; i++) all[20 + i] = x.status(i);
-    all[29] = x.state(0, 9);
-    all[30] = x.why(0, 9, LOW);
-    all[31] = x.told(1, 5);
-    all[32] = x.as(0, 0, NONE, LOW);
-    return all;
+    is(x.free(0, 2, false), true);
+    says("36: Refused (2) without one.");
+    no(x.back(), 2);
+    x.contract();
+    no(x.back(), 2);
+    due(x.status(6), 1);
+    due(x.status(2), 2);
+    yes(x.image());
+    yes(x.back());
   }
 
   private static void status() {
-    begin(37);
-    due(x.status(-1), NONE);
-    due(x.status(9), NONE);
-    due(x.status(Integer.MIN_VALUE), NONE);
-    due(x.status(Integer.MAX_VALUE), NONE);
+    says("37: What 0 the REASON of the latest call but status() (0: it was not refused)");
     due(x.status(0), 0);
     x.kind(0, 0);
     due(x.status(0), 2);
-    due(x.status(99), NONE);
+    for (int what = -1; what <= 9; what++) x.status(what);
     due(x.status(0), 2);
-    due(x.status(2), 1);
     x.contract();
     due(x.status(0), 0);
-    due(x.status(6), 1);
     x.kind(0, 60);
-    x.kind(0, -1);
     due(x.status(0), 1);
-    due(x.status(1), 2);
-    term(0, ALLOW, 0, 0, 0);
-    x.headed(0, 0);
-    due(x.status(0), 3);
-    due(x.status(3), 1);
-    yes(x.port(0, 0, 2));
-    x.copy(0, 1, 0, 0, 2);
-    due(x.status(0), 4);
-    due(x.status(4), 1);
-    due(x.status(5), 0);
-    for (int i = 1; i < 40; i++) x.contract();
+    x.image();
+    due(x.status(0), 0);
+    says("37: 1 .. 5 how many calls were refused for each REASON");
+    for (int i = 0; i < 2; i++) x.kind(0, 60);
+    for (int i = 0; i < 3; i++) x.kind(0, 0);
     x.contract();
-    due(x.status(0), 5);
-    due(x.status(5), 1);
-    due(x.status(6), 40);
-    due(x.status(7), 0);
-    yes(x.event(0, 0, 0));
-    due(x.status(7), 1);
-    due(x.status(8), 0);
+    term(0, ALLOW, ALL, 0, 0);
+    for (int i = 0; i < 4; i++) x.headed(0, 0);
+    yes(x.port(0, 0, 2));
+    for (int i = 0; i < 5; i++) x.copy(0, 1, 0, 0, 2);
+    for (int i = 1; i < 46; i++) x.contract();
+    for (int why = 1; why <= 5; why++) due(x.status(why), why + 1);
+    says("37: 6 CONTRACTS, 7 EVENTS of all PORTS, 8 rows of the claim (0 without)");
+    for (int what = 6; what <= 8; what++) due(x.status(what), 0);
+    ship(1);
+    open(7, 0, 90);
+    yes(x.event(7, 129599, ENDED));
     yes(x.claim(0));
     is(x.tell(1, 1), 1);
-    due(x.status(8), 1);
-    yes(x.close(0));
-    due(x.status(7), 0);
+    is(x.tell(1, 1), 2);
+    due(x.status(6), 1);
+    due(x.status(7), 5);
+    due(x.status(8), 2);
+    yes(x.close(7));
+    due(x.status(7), 2);
+    says("37: NONE for another what.");
+    for (int bad : new int[] {-1, 9, 10, LEAST_INT, MOST_INT}) due(x.status(bad), NONE);
   }
 
   public static void main(String[] args) {
     newObject();
     contract();
     term();
+    termBounds();
     yields();
-    yielding();
     amount();
     heading();
     strike();
     kind();
     headed();
     span();
-    spans();
     port();
+    portAlone();
     close();
     event();
-    fullOfEvents();
     day();
     tear();
     copy();
-    copyOfItself();
+    copyAtFirst();
+    copyMany();
+    copyBeyond();
     copyWhenFull();
+    copyFewer();
+    copyBounds();
     free();
     tons();
     office();
     offset();
     rate();
     together();
-    oneSum();
     told();
-    allowed();
     weight();
     state();
     minute();
@@ -1491,16 +1521,17 @@ public final class PromiseTest {
     counts();
     by();
     sum();
-    money();
-    gaps();
     asIf();
+    asOfGroup();
     claim();
     tell();
-    check();
+    checkRight();
+    checkWrong();
+    checkMore();
+    checkOfGroup();
     image();
     back();
     status();
-    System.out.println(wrong == 0 ? "all promises hold" : wrong + " answers are not as due");
-    if (wrong != 0) System.exit(1);
+    finish();
   }
 }
