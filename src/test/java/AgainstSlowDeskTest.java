@@ -16,11 +16,13 @@ public final class AgainstSlowDeskTest {
   private final List<String> calls = new ArrayList<>();
   private boolean failed;
   private final int days;
+  private final int ports;
   private final int oddOneIn;
 
-  private AgainstSlowDeskTest(long seed, int days, int oddOneIn) {
+  private AgainstSlowDeskTest(long seed, int days, int ports, int oddOneIn) {
     this.seed = seed * 7919L + 17L;
     this.days = days;
+    this.ports = ports;
     this.oddOneIn = oddOneIn;
   }
 
@@ -64,7 +66,7 @@ public final class AgainstSlowDeskTest {
   }
 
   private int c() { return odd() ? wild() : roll(2); }
-  private int p() { return odd() ? wild() : roll(3); }
+  private int p() { return odd() ? wild() : roll(ports); }
   private int place() { return odd() ? wild() : roll(20) == 0 ? 59 : roll(9); }
   private int d() { return odd() ? wild() : roll(days); }
   private int m() { return odd() ? wild() : roll(3) == 0 ? roll(days) * 1440 + pick(0, 1, 59, 60, 600, 601, 1439) : roll(days * 1440); }
@@ -96,7 +98,9 @@ public final class AgainstSlowDeskTest {
     call("contract");
     call("contract");
     for (int i = roll(8); i > 0; i--) anyTerm();
-    for (int p = 0; p < 1 + roll(3); p++) openPort(p);
+    int many = 1 + roll(ports);
+    for (int p = 0; p < many; p++) openPort(p);
+    if (ports > 3) call("together", (1 << many) - 1);
   }
   private void openPort(int p) {
     call("port", p, roll(2), odd() ? 1 : days);
@@ -114,7 +118,7 @@ public final class AgainstSlowDeskTest {
       case 4: case 5: anyAmount(c(), place(), roll(2) * 3); break;
       case 6: call("heading", c(), place(), wild()); break;
       case 7: call("strike", c(), place()); break;
-      case 8: if (roll(3) == 0) openPort(roll(3)); break;
+      case 8: if (roll(3) == 0) openPort(roll(ports)); break;
       case 9: if (roll(4) == 0) call("close", p()); break;
       case 10: case 11: case 12: anyEvent(); break;
       case 13: call("day", p(), d(), roll(3) != 0); break;
@@ -125,7 +129,7 @@ public final class AgainstSlowDeskTest {
       case 18: call("office", p(), hour(), hour(), odd() ? wild() : roll(days * 1000)); break;
       case 19: call("offset", p(), odd() ? wild() : pick(0, 0, 1, 60, 1000, roll(5000))); break;
       case 20: call("rate", p(), (long) (odd() ? wild() : roll(1000000000)), (long) (odd() ? wild() : roll(1000000))); break;
-      default: call("together", odd() ? wild() : roll(8)); break;
+      default: call("together", odd() ? wild() : roll(1 << ports)); break;
     }
   }
 
@@ -150,12 +154,12 @@ public final class AgainstSlowDeskTest {
 
   /** The minutes beside ONCE are those in which a mistake shows. */
   private void askAround() {
-    int p = roll(3);
+    int p = roll(ports);
     boolean high = high();
     long once = call("sum", p, 2, high);
     if (once < 0) return;
     for (int i = -1; i <= 1; i++) {
-      for (int q = 0; q < 3; q++) {
+      for (int q = 0; q < ports; q++) {
         int m = (int) once + i - offsetOf(q);
         if (m >= 0) call("why", q, m, high);
         if (m >= 0) call("minute", q, m, high);
@@ -173,7 +177,7 @@ public final class AgainstSlowDeskTest {
 
   /** A claim that is right, told row by row from why(), with a mistake in some. */
   private void claims() {
-    int p = roll(3);
+    int p = roll(ports);
     boolean high = high();
     call("claim", odd() ? wild() : p);
     long end = slow.told(p, 2);
@@ -214,7 +218,8 @@ public final class AgainstSlowDeskTest {
     for (int i = from; i < from + runs && wrong < 3; i++) {
       int days = i % 100 == 99 ? 90 : 1 + i % 3;
       int oddOneIn = i % 10 == 1 ? 2 : i % 4 == 0 ? 8 : 40;
-      new AgainstSlowDeskTest(i, days, oddOneIn).run(days == 90 ? 30 : i % 50 == 0 ? 400 : 120);
+      int ports = i % 9 == 4 ? 8 : 3;
+      new AgainstSlowDeskTest(i, days, ports, oddOneIn).run(days == 90 ? 30 : i % 50 == 0 ? 400 : 120);
     }
     System.out.println(wrong == 0 ? "all runs answer alike" : wrong + " runs differ");
     if (wrong != 0) System.exit(1);

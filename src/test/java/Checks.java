@@ -99,4 +99,57 @@ abstract class Checks {
     is(x.copy(1, 0, 0, 0, 10), 10);
     due(x.status(7), 5000);
   }
+
+  /** A new desk that holds something of all: a TERM, a HEADING, PORTS 0, 1 and 4, a GROUP, gaps, a claim. */
+  static void laden() {
+    ship(3);
+    term(0, ALLOW, HOURS, 0, 1440);
+    yes(x.amount(0, 0, 10));
+    x.yields(0, 0, 3);
+    yes(x.heading(0, 1, 44));
+    open(1, 0, 2);
+    open(4, 0, 1);
+    yes(x.event(4, 0, ENDED));
+    yes(x.rate(4, 1, 5000));
+    yes(x.together(3));
+    yes(x.tons(0, 5005));
+    yes(x.office(0, 3, 1400, 5));
+    yes(x.offset(0, 6));
+    yes(x.rate(0, 2880, 8));
+    yes(x.day(0, 1, false));
+    is(x.tear(0, 2, 70), 0);
+    is(x.free(0, 2, true), false);
+    yes(x.event(0, 9, BEGAN));
+    yes(x.claim(0));
+    is(x.tell(2, 0), 1);
+    is(x.check(0, LOW), 10);
+  }
+
+  /** What a laden desk answers to many questions. */
+  static long[] look() {
+    long[] all = new long[64];
+    int n = 0;
+    for (int p = 0; p < 2; p++) for (int what = 0; what < 8; what++) all[n++] = x.told(p, what);
+    for (int p = 0; p < 2; p++) for (int what = 0; what < 9; what++) all[n++] = x.sum(p, what, HIGH);
+    for (int what = 0; what < 5; what++) all[n++] = x.span(0, 0, what);
+    for (int place = 0; place < 3; place++) all[n++] = x.kind(0, place);
+    for (int what = 0; what < 2; what++) all[n++] = x.weight(0, what);
+    for (int what = 6; what <= 8; what++) all[n++] = x.status(what);
+    all[n++] = x.sum(4, MONEY, LOW);
+    all[n++] = x.headed(0, 1);
+    all[n++] = x.check(0, LOW);
+    all[n++] = x.state(0, 9);
+    all[n++] = x.why(0, 9, LOW);
+    all[n++] = x.as(0, 0, NONE, LOW);
+    all[n++] = x.by(0, GAP, LOW);
+    all[n++] = x.counts(1, 0, 700, LOW);
+    all[n++] = x.told(2, DAYS);
+    return all;
+  }
+
+  /** The desk answers all as it did when that look was taken. */
+  static void same(long[] was) {
+    long[] now = look();
+    for (int i = 0; i < was.length; i++) due(now[i], was[i]);
+  }
 }

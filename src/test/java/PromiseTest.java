@@ -1,5 +1,3 @@
-import java.util.Arrays;
-
 /** Promises 1 to 37: each of their sentences, at the boundaries that it names; what REFUSALS say of all is in RefusalsTest. */
 public final class PromiseTest extends Checks {
 
@@ -1142,8 +1140,11 @@ public final class PromiseTest extends Checks {
     due(x.status(8), 0);
     is(x.tell(1, 0), 1);
     says("33: Refused: 500 rows (5).");
-    ship(1);
-    yes(x.claim(0));
+    x.contract();
+    x.port(0, 0, 1);
+    x.event(0, 0, ARRIVED);
+    x.event(0, 0, NOTICE);
+    x.claim(0);
     for (int i = 1; i <= 499; i++) due(x.tell(1, -2), i);
     is(x.tell(2, -2), 500);
     no(x.tell(1, -2), 5);
@@ -1361,50 +1362,9 @@ public final class PromiseTest extends Checks {
     due(x.status(2), 2);
   }
 
-  private static long[] look() {
-    long[] all = new long[72];
-    int n = 0;
-    for (int p = 0; p < 2; p++) for (int what = 0; what < 8; what++) all[n++] = x.told(p, what);
-    for (int p = 0; p < 2; p++) for (int what = 0; what < 9; what++) all[n++] = x.sum(p, what, HIGH);
-    all[n++] = x.sum(2, MONEY, LOW);
-    for (int what = 0; what < 5; what++) all[n++] = x.span(0, 0, what);
-    for (int place = 0; place < 3; place++) all[n++] = x.kind(0, place);
-    all[n++] = x.headed(0, 1);
-    all[n++] = x.weight(0, 0);
-    all[n++] = x.weight(0, 1);
-    all[n++] = x.check(0, LOW);
-    for (int what = 6; what <= 8; what++) all[n++] = x.status(what);
-    all[n++] = x.state(0, 9);
-    all[n++] = x.why(0, 9, LOW);
-    all[n++] = x.as(0, 0, NONE, LOW);
-    all[n++] = x.by(0, GAP, LOW);
-    all[n++] = x.counts(1, 0, 700, LOW);
-    return Arrays.copyOf(all, n);
-  }
-
   private static void back() {
     says("36: All is as it was at the latest image() (which stays): true.");
-    ship(3);
-    term(0, ALLOW, HOURS, 0, 1440);
-    yes(x.amount(0, 0, 10));
-    x.yields(0, 0, 3);
-    yes(x.heading(0, 1, 44));
-    open(1, 0, 1);
-    open(2, 0, 1);
-    yes(x.event(2, 0, ENDED));
-    yes(x.rate(2, 1, 5000));
-    yes(x.together(3));
-    yes(x.tons(0, 5005));
-    yes(x.office(0, 3, 1400, 5));
-    yes(x.offset(0, 6));
-    yes(x.rate(0, 2880, 8));
-    yes(x.day(0, 1, false));
-    is(x.tear(0, 2, 70), 0);
-    is(x.free(0, 2, true), false);
-    yes(x.event(0, 9, BEGAN));
-    yes(x.claim(0));
-    is(x.tell(2, 0), 1);
-    is(x.check(0, LOW), 10);
+    laden();
     long[] was = look();
     yes(x.image());
     for (int round = 0; round < 2; round++) {
@@ -1419,7 +1379,7 @@ public final class PromiseTest extends Checks {
       yes(x.office(0, 0, 0, 0));
       yes(x.offset(0, 0));
       yes(x.rate(0, 0, 0));
-      yes(x.rate(2, 0, 0));
+      yes(x.rate(4, 0, 0));
       yes(x.event(0, 1440, RAIN));
       yes(x.event(1, 3, RAIN));
       if (round == 1) yes(x.port(0, 1, 2));
@@ -1428,8 +1388,7 @@ public final class PromiseTest extends Checks {
       is(x.tell(9, -3), 1);
       is(x.tell(9, -3), 2);
       yes(x.back());
-      long[] now = look();
-      for (int i = 0; i < was.length; i++) due(now[i], was[i]);
+      same(was);
     }
     is(x.free(0, 2, false), true);
     says("36: Refused (2) without one.");

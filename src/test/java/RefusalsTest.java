@@ -239,10 +239,11 @@ public final class RefusalsTest extends Checks {
     is(x.tear(1, 10, 5), 0);
     no(x.event(1, 14405, 0), 2);
     no(x.event(1, 14404, 0), 5);
-    ship(1);
-    yes(x.claim(0));
-    for (int i = 1; i <= 480; i++) x.tell(1, 0);
-    for (int i = 481; i <= 500; i++) due(x.tell(1, 0), i);
+    fresh();
+    x.contract();
+    x.port(0, 0, 1);
+    x.claim(0);
+    for (int i = 1; i <= 500; i++) due(x.tell(1, 0), i);
     no(x.tell(1, 60), 1);
     no(x.tell(0, 0), 1);
     no(x.tell(1, 0), 5);
@@ -293,52 +294,6 @@ public final class RefusalsTest extends Checks {
     no(x.tell(0, 0), 1);
     no(x.tell(1, 60), 1);
     no(x.as(0, 0, 60, LOW), 1);
-  }
-
-  private static long[] look() {
-    long[] all = new long[60];
-    int n = 0;
-    for (int p = 0; p < 2; p++) for (int what = 0; what < 8; what++) all[n++] = x.told(p, what);
-    for (int what = 0; what < 9; what++) all[n++] = x.sum(0, what, HIGH);
-    for (int what = 0; what < 5; what++) all[n++] = x.span(0, 0, what);
-    for (int place = 0; place < 3; place++) all[n++] = x.kind(0, place);
-    all[n++] = x.headed(0, 1);
-    all[n++] = x.weight(0, 0);
-    all[n++] = x.weight(0, 1);
-    all[n++] = x.check(0, LOW);
-    for (int what = 6; what <= 8; what++) all[n++] = x.status(what);
-    all[n++] = x.state(0, 20);
-    all[n++] = x.sum(1, LEAST, LOW);
-    all[n++] = x.sum(1, MONEY, LOW);
-    all[n++] = x.by(0, GAP, LOW);
-    all[n++] = x.by(0, 0, LOW);
-    all[n++] = x.told(2, DAYS);
-    return all;
-  }
-
-  private static void laden() {
-    ship(3);
-    open(1, 0, 2);
-    term(0, HALF, HOURS, 1200, 300);
-    x.yields(0, 0, 5);
-    yes(x.heading(0, 1, 44));
-    allowAside(77);
-    yes(x.event(0, 20, RAIN));
-    yes(x.day(0, 1, false));
-    is(x.tear(0, 2, 70), 0);
-    is(x.free(0, 2, true), false);
-    yes(x.tons(0, 5005));
-    yes(x.office(0, 3, 1400, 5));
-    yes(x.offset(0, 6));
-    yes(x.rate(0, 2880, 8));
-    yes(x.together(3));
-    yes(x.claim(0));
-    is(x.tell(4, 0), 1);
-  }
-
-  private static void same(long[] was) {
-    long[] now = look();
-    for (int i = 0; i < was.length; i++) due(now[i], was[i]);
   }
 
   private static void nothingChanges() {
