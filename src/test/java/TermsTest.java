@@ -374,6 +374,42 @@ public final class TermsTest extends Checks {
     is(x.state(0, 49), 1);
   }
 
+  private static void eventsOfNeighbours() {
+    says("A PORT that is open has a LOG of 1 .. 90 DAYS: its last minute beside the first of the next PORT's");
+    x.contract();
+    for (int p = 0; p < 3; p++) yes(x.port(p, 0, 90));
+    for (int kind : new int[] {ARRIVED, NOTICE, BEGAN, ENDED}) yes(x.event(0, 129599, kind));
+    for (int kind : new int[] {ARRIVED, NOTICE, RAIN, ENDED}) yes(x.event(2, 0, kind));
+    is(x.state(1, 0), 0);
+    is(x.state(1, 129599), 0);
+    is(x.told(1, EVENTS), 0);
+    is(x.told(1, GOOD), NONE);
+    is(x.told(0, EVENTS), 4);
+    is(x.told(0, GOOD), 129599);
+    is(x.told(0, END), 129599);
+    is(x.told(2, EVENTS), 4);
+    is(x.told(2, END), 0);
+    is(x.state(2, 0), 2);
+    yes(x.event(1, 0, ARRIVED));
+    yes(x.event(1, 129599, NOTICE));
+    is(x.told(1, GOOD), 129599);
+    is(x.told(1, END), 129600);
+    yes(x.event(1, 0, NOTICE));
+    is(x.told(1, GOOD), 0);
+    is(x.tear(1, 0, 0), 2);
+    is(x.tear(1, 89, 0), 1);
+    yes(x.day(1, 0, true));
+    yes(x.day(1, 89, true));
+    is(x.copy(1, 0, 1, 89, 1), 1);
+    is(x.copy(1, 89, 1, 0, 1), 1);
+    is(x.told(0, EVENTS), 4);
+    is(x.told(2, EVENTS), 4);
+    yes(x.close(1));
+    due(x.status(7), 8);
+    is(x.state(0, 129599), 1);
+    is(x.state(2, 0), 2);
+  }
+
   private static void mostEvents() {
     says("at most 5000 of all PORTS");
     full();
@@ -685,6 +721,7 @@ public final class TermsTest extends Checks {
     tornDays();
     unknownMinutes();
     eventsLie();
+    eventsOfNeighbours();
     mostEvents();
     eventKinds();
     state();
