@@ -197,6 +197,31 @@ public final class AgainstSlowDeskTest {
     call("check", odd() ? wild() : (int) call("counts", p, 0, 129600, high), high);
     call("check", 0, high());
   }
+  /** Runs in which there are some 5000 EVENTS: DAYS come, go and are copied where there is hardly room for them. */
+  private void crowd(int turns) {
+    call("contract");
+    for (int p = 0; p < ports; p++) call("port", p, 0, days);
+    int inOneDay = 5000 / (days * (ports - 1)) - 3 + roll(6);
+    for (int i = 0; i < inOneDay; i++) call("event", 0, roll(1440), roll(8));
+    for (int d = 1; d < days; d *= 2) call("copy", 0, d, 0, 0, Math.min(d, days - d));
+    for (int p = 1; p < ports; p++) call("copy", p, 0, 0, 0, days);
+    call("image");
+    for (int i = 0; i < turns && !failed; i++) crowdedCall();
+  }
+  private void crowdedCall() {
+    switch (roll(12)) {
+      case 0: case 1: case 2: case 3: call("copy", p(), d(), p(), d(), odd() ? wild() : roll(days + 2)); break;
+      case 4: case 5: call("event", p(), m(), roll(8)); break;
+      case 6: call("tear", p(), d(), 1439 - roll(300)); break;
+      case 7: if (roll(3) == 0) call("day", p(), d(), high()); break;
+      case 8: call("told", p(), roll(8)); break;
+      case 9: call("state", p(), m()); break;
+      case 10: if (roll(8) == 0) call("port", p(), 0, days); else call("sum", p(), roll(9), high()); break;
+      // Else the EVENTS would soon be few.
+      default: if (roll(2) == 0) call("back"); break;
+    }
+  }
+
   private void run(int turns) {
     start();
     for (int i = 0; i < turns && !failed; i++) {
@@ -219,6 +244,10 @@ public final class AgainstSlowDeskTest {
       int days = i % 100 == 99 ? 90 : 1 + i % 3;
       int oddOneIn = i % 10 == 1 ? 2 : i % 4 == 0 ? 8 : 40;
       int ports = i % 9 == 4 ? 8 : 3;
+      if (i % 20 == 13) {
+        new AgainstSlowDeskTest(i, 8 + i % 23, 2 + i % 3, 40).crowd(200);
+        continue;
+      }
       new AgainstSlowDeskTest(i, days, ports, oddOneIn).run(days == 90 ? 30 : i % 50 == 0 ? 400 : 120);
     }
     System.out.println(wrong == 0 ? "all runs answer alike" : wrong + " runs differ");
